@@ -397,6 +397,7 @@ public final class Chamberwright {
             return as[line] * x + bs[line] * y - cs[line] * d;
         }
 
+        /** The LINES above which the point is. */
         int setBelow(int x, int y, int d) {
             int set = 0;
             for (int line = 0; line < count; line++) {
@@ -463,7 +464,7 @@ public final class Chamberwright {
 
     /** The MEETS by their numbers: found anew whenever the LINES change. */
     private static final class Meets {
-        /** Far more than Euclid's way needs for numbers up to 162. */
+        /** Far more than Euclid's algorithm needs for numbers up to 162. */
         private static final int MOST_DIVISIONS = 64;
 
         private final int[] xs;
@@ -875,9 +876,10 @@ public final class Chamberwright {
             if (dot >= DOTS) {
                 return 1;
             }
+            int beside = row(edges, dot);
             int found = 0;
             for (int colour = 0; colour < colours; colour++) {
-                if ((row(dyed, colour) & row(edges, dot)) == 0) {
+                if ((row(dyed, colour) & beside) == 0) {
                     found += tried(edges, colours, dot + 1, dyed | sign(colour, dot));
                 }
             }

@@ -39,6 +39,9 @@ public final class LinesTest {
         CHECK.same("new meets()", x.meets(), 0);
         CHECK.same("new rooms()", x.rooms(), 1);
         CHECK.same("new bounded()", x.bounded(), 0);
+        CHECK.same("new roomOf(0) and roomOf(1)", Check.row(x.roomOf(0), x.roomOf(1)), "0 -1");
+        CHECK.same("new room(0)", Check.row(x.room(0, 0), x.room(0, 1), x.room(0, 2), x.room(0, 3)), "0 0 0 0");
+        CHECK.same("new gallery", Check.row(x.galleries(0, 0), x.gallery(0, 0, 0), x.gallery(0, 0, 1)), "1 0 -1");
         CHECK.same("new pairs()", x.pairs(), 0);
         CHECK.same("new polynomial", Check.row(x.polynomial(2), x.polynomial(1), x.polynomial(0)), "1 0 0");
         CHECK.same("new polynomialAnew",
@@ -188,6 +191,7 @@ public final class LinesTest {
         Chamberwright two = house(t(1, 0, 0), t(1, 0, 2));
         CHECK.same("two are one over 2", two.points(2), 2);
         CHECK.same("two beside one another over 3", two.points(3), 3);
+        CHECK.same("two that fill all over 2", house(t(1, 0, 0), t(1, 0, 1)).points(2), 0);
         int[] primes = {11, 13, 17, 19, 23, 29, 31};
         Chamberwright three = house(t(1, 0, 0), t(0, 1, 0), t(1, 1, 1));
         for (int prime : primes) {

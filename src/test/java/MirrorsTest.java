@@ -72,6 +72,10 @@ public final class MirrorsTest {
         CHECK.yes("and now all", x.isKaleidoscope());
         x.takeAway(0);
         CHECK.no("one less", x.isKaleidoscope());
+        CHECK.no("only 1 -1 0 is reflected into none", house(t(1, -1, 0), t(1, 0, 0), t(0, 1, 0)).isKaleidoscope());
+        Chamberwright left = house(t(1, 0, 0), t(1, 1, 0));
+        left.takeAway(1);
+        CHECK.yes("the one that is left", left.isKaleidoscope());
     }
 
     private static String told(Chamberwright x) {

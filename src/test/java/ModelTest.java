@@ -25,7 +25,7 @@ public final class ModelTest {
 
     private void go(int run) {
         for (int call = 0; call < CALLS; call++) {
-            int which = call < 12 ? 0 : random.nextInt(60);
+            int which = call < run % 13 ? 0 : random.nextInt(60);
             if (which < 2) {
                 line(run);
             } else if (which == 2) {

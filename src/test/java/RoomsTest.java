@@ -73,6 +73,7 @@ public final class RoomsTest {
 
     private static void boundedOnes() {
         CHECK.same("bounded() of three", triangle().bounded(), 1);
+        CHECK.same("bounded() of ROOM 0 alone", house(t(-1, 0, 0), t(0, -1, 0), t(1, 1, 2)).bounded(), 1);
         CHECK.same("bounded() of a window", window().bounded(), 1);
         CHECK.same("rooms() of a window", window().rooms(), 9);
         CHECK.same("BOUNDED of a window", told(window(), 1), "0 0 0 0 1 0 0 0 0");
@@ -234,6 +235,15 @@ public final class RoomsTest {
         int middle = w.roomOf(5);
         CHECK.same("best of a window", Check.row(w.best(middle, 1, 1), w.best(middle, 1, -1), w.best(middle, -1, 1),
                 w.best(middle, -1, -1), w.best(middle, 1, 0), w.best(middle, 0, 1)), "3 2 1 0 2 1");
+        Chamberwright wedges = house(t(1, -2, 0), t(2, -1, 0));
+        CHECK.same("bounds of a narrow ROOM", Check.row(wedges.best(2, 1, -2), wedges.best(2, 1, -3),
+                wedges.best(2, -2, 1), wedges.best(2, -9, -9)), "0 0 0 0");
+        CHECK.same("none of a narrow ROOM", Check.row(wedges.best(2, 2, -1), wedges.best(2, -1, 2),
+                wedges.best(2, -3, 2), wedges.best(2, 2, -3), wedges.best(2, 1, 1)), "-1 -1 -1 -1 -1");
+        CHECK.same("bounds of a wide ROOM",
+                Check.row(wedges.best(0, 2, -1), wedges.best(0, 1, -2), wedges.best(0, 1, -1)), "0 0 0");
+        CHECK.same("none of a wide ROOM",
+                Check.row(wedges.best(0, -2, 1), wedges.best(0, 1, -3), wedges.best(0, 3, -1)), "-1 -1 -1");
         Chamberwright parts = house(t(0, 1, 0), t(2, 1, 3), t(3, 1, 4));
         int small = parts.roomOf(5);
         CHECK.same("its corners are 1, 4 / 3 and 3 / 2 to the right",
