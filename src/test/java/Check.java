@@ -3,12 +3,19 @@ import java.util.List;
 
 /** Counts what a test looked at, and prints each answer that is not the one that is due. */
 final class Check {
-    /** A call that may throw. */
-    interface Call {
-        void run();
+    /** A way to make one object, always the same. */
+    interface Made {
+        Chamberwright anew();
+    }
+
+    /** A call on an object, which may throw. */
+    interface Asked {
+        void of(Chamberwright x);
     }
 
     private final String name;
+    private String sentence = "";
+    private int lookedAt = 0;
     private int passed = 0;
     private int failed = 0;
 
@@ -16,16 +23,33 @@ final class Check {
         this.name = name;
     }
 
+    /** Begins what is due by one sentence of the document; one under which nothing was looked at is a failure. */
+    void sentence(String words) {
+        endSentence();
+        sentence = words;
+        lookedAt = 0;
+    }
+
+    private void endSentence() {
+        if (!sentence.isEmpty() && lookedAt == 0) {
+            failed++;
+            System.out.println(name + ": nothing was looked at for: " + sentence);
+        }
+        sentence = "";
+    }
+
     void same(String what, long got, long due) {
         same(what, Long.toString(got), Long.toString(due));
     }
 
     void same(String what, String got, String due) {
+        lookedAt++;
         if (got.equals(due)) {
             passed++;
         } else {
             failed++;
-            System.out.println(name + ": " + what + " answered " + got + ", due is " + due);
+            String about = sentence.isEmpty() ? "" : "[" + sentence + "] ";
+            System.out.println(name + ": " + about + what + " answered " + got + ", due is " + due);
         }
     }
 
@@ -37,16 +61,19 @@ final class Check {
         same(what, Boolean.toString(got), "false");
     }
 
-    /** The call throws just that kind, and all answers of the object stay what they were. */
-    void refused(Chamberwright x, String what, Class<? extends RuntimeException> kind, Call call) {
-        String before = Snapshot.of(x);
-        same(what + " throws", thrownBy(call), kind.getSimpleName());
-        same("the state behind the refused " + what, Snapshot.of(x), before);
+    /**
+     * The call throws just that kind, and behind it the object answers as one does that was made in the same
+     * way and never had that call.
+     */
+    void refused(Made made, String what, Class<? extends RuntimeException> kind, Asked call) {
+        Chamberwright x = made.anew();
+        same(what + " throws", thrownBy(x, call), kind.getSimpleName());
+        same("the state behind the refused " + what, Snapshot.last(x), Snapshot.last(made.anew()));
     }
 
-    static String thrownBy(Call call) {
+    static String thrownBy(Chamberwright x, Asked call) {
         try {
-            call.run();
+            call.of(x);
             return "nothing";
         } catch (RuntimeException e) {
             return e.getClass().getSimpleName();
@@ -54,6 +81,7 @@ final class Check {
     }
 
     void endsWell() {
+        endSentence();
         System.out.println(name + ": " + passed + " answers as due, " + failed + " not");
         if (failed > 0 || passed == 0) {
             System.exit(1);

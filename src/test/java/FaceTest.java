@@ -133,10 +133,13 @@ public final class FaceTest {
         }
         com.sun.management.ThreadMXBean counter = (com.sun.management.ThreadMXBean) bean;
         long self = Thread.currentThread().getId();
-        Chamberwright x = new Chamberwright();
-        askAll(x);
+        Chamberwright[] made = new Chamberwright[20];
+        for (int i = 0; i < made.length; i++) {
+            made[i] = new Chamberwright();
+        }
+        askAll(new Chamberwright());
         long before = counter.getThreadAllocatedBytes(self);
-        for (int i = 0; i < 20; i++) {
+        for (Chamberwright x : made) {
             askAll(x);
         }
         // Some bytes for the counter itself; a row of two numbers a call would be thousands.

@@ -46,19 +46,19 @@ public final class GraphTest {
     }
 
     private static void edgesAreRefused() {
-        Chamberwright x = graph(0, 1, 4, 5);
+        Check.Made made = () -> graph(0, 1, 4, 5);
         Class<IndexOutOfBoundsException> noSuch = IndexOutOfBoundsException.class;
         int[] outside = {-1, 6, Integer.MAX_VALUE, Integer.MIN_VALUE};
         for (int dot : outside) {
-            CHECK.refused(x, "edge(" + dot + ", 0)", noSuch, () -> x.edge(dot, 0));
-            CHECK.refused(x, "edge(0, " + dot + ")", noSuch, () -> x.edge(0, dot));
-            CHECK.refused(x, "edge(" + dot + ", " + dot + ")", noSuch, () -> x.edge(dot, dot));
+            CHECK.refused(made, "edge(" + dot + ", 0)", noSuch, y -> y.edge(dot, 0));
+            CHECK.refused(made, "edge(0, " + dot + ")", noSuch, y -> y.edge(0, dot));
+            CHECK.refused(made, "edge(" + dot + ", " + dot + ")", noSuch, y -> y.edge(dot, dot));
         }
         for (int dot = 0; dot < 6; dot++) {
             int one = dot;
-            CHECK.refused(x, "edge(" + one + ", " + one + ")", IllegalArgumentException.class, () -> x.edge(one, one));
+            CHECK.refused(made, "edge(" + one + ", " + one + ")", IllegalArgumentException.class, y -> y.edge(one, one));
         }
-        CHECK.same("the EDGES are still two", x.edge(2, 3), 3);
+        CHECK.same("the EDGES are two", made.anew().edge(2, 3), 3);
     }
 
     /** The colourings with 0 to 6 colours, and the directions; each in both ways. */
@@ -122,12 +122,12 @@ public final class GraphTest {
     }
 
     private static void coloursAreRefused() {
-        Chamberwright x = graph(0, 1, 1, 2);
+        Check.Made made = () -> graph(0, 1, 1, 2);
         int[] outside = {-1, 7, Integer.MAX_VALUE, Integer.MIN_VALUE};
         for (int colours : outside) {
-            CHECK.refused(x, "colourings(" + colours + ")", IllegalArgumentException.class, () -> x.colourings(colours));
-            CHECK.refused(x, "colouringsAnew(" + colours + ")", IllegalArgumentException.class,
-                    () -> x.colouringsAnew(colours));
+            CHECK.refused(made, "colourings(" + colours + ")", IllegalArgumentException.class, y -> y.colourings(colours));
+            CHECK.refused(made, "colouringsAnew(" + colours + ")", IllegalArgumentException.class,
+                    y -> y.colouringsAnew(colours));
         }
     }
 }

@@ -60,20 +60,23 @@ public final class LinesTest {
         for (int i = 0; i < 9; i++) {
             CHECK.same("LINE " + i, x.line(1, i, 9 - i), i);
         }
-        CHECK.refused(x, "a tenth LINE", IllegalStateException.class, () -> x.line(0, 1, 9));
-        CHECK.refused(x, "a tenth LINE that is there", IllegalStateException.class, () -> x.line(1, 0, 9));
+        Check.Made made = () -> house(t(1, 0, 9), t(1, 1, 8), t(1, 2, 7), t(1, 3, 6), t(1, 4, 5), t(1, 5, 4), t(1, 6, 3),
+                t(1, 7, 2), t(1, 8, 1));
+        CHECK.refused(made, "a tenth LINE", IllegalStateException.class, y -> y.line(0, 1, 9));
+        CHECK.refused(made, "a tenth LINE that is there", IllegalStateException.class, y -> y.line(1, 0, 9));
         CHECK.same("takeAway(8)", x.takeAway(8), 8);
         CHECK.same("a ninth LINE again", x.line(0, -9, 9), 8);
     }
 
     private static void linesAreRefused() {
-        Chamberwright x = house(t(1, 2, 3), t(0, 3, 0), t(4, 0, 6), t(3, -6, 9));
+        Check.Made made = () -> house(t(1, 2, 3), t(0, 3, 0), t(4, 0, 6), t(3, -6, 9));
         Class<IllegalStateException> there = IllegalStateException.class;
-        CHECK.refused(x, "line(1, 2, 3)", there, () -> x.line(1, 2, 3));
-        CHECK.refused(x, "line(-3, -6, -9)", there, () -> x.line(-3, -6, -9));
-        CHECK.refused(x, "line(0, -1, 0)", there, () -> x.line(0, -1, 0));
-        CHECK.refused(x, "line(-6, 0, -9)", there, () -> x.line(-6, 0, -9));
-        CHECK.refused(x, "line(-2, 4, -6)", there, () -> x.line(-2, 4, -6));
+        CHECK.refused(made, "line(1, 2, 3)", there, y -> y.line(1, 2, 3));
+        CHECK.refused(made, "line(-3, -6, -9)", there, y -> y.line(-3, -6, -9));
+        CHECK.refused(made, "line(0, -1, 0)", there, y -> y.line(0, -1, 0));
+        CHECK.refused(made, "line(-6, 0, -9)", there, y -> y.line(-6, 0, -9));
+        CHECK.refused(made, "line(-2, 4, -6)", there, y -> y.line(-2, 4, -6));
+        Chamberwright x = made.anew();
         CHECK.same("a LINE beside one", x.line(1, 2, -3), 4);
         CHECK.same("a LINE with another slope", x.line(1, -2, -3), 5);
         CHECK.same("a LINE through the same x", x.line(4, 1, 6), 6);
@@ -82,30 +85,30 @@ public final class LinesTest {
 
     private static void rangeIsLookedAtFirst() {
         Class<IllegalArgumentException> wrong = IllegalArgumentException.class;
-        Chamberwright x = house(t(1, 1, 1));
+        Check.Made made = () -> house(t(1, 1, 1));
         int[] outside = {10, -10, 18, Integer.MAX_VALUE, Integer.MIN_VALUE};
         for (int far : outside) {
-            CHECK.refused(x, "line(" + far + ", 1, 1)", wrong, () -> x.line(far, 1, 1));
-            CHECK.refused(x, "line(1, " + far + ", 1)", wrong, () -> x.line(1, far, 1));
-            CHECK.refused(x, "line(1, 1, " + far + ")", wrong, () -> x.line(1, 1, far));
+            CHECK.refused(made, "line(" + far + ", 1, 1)", wrong, y -> y.line(far, 1, 1));
+            CHECK.refused(made, "line(1, " + far + ", 1)", wrong, y -> y.line(1, far, 1));
+            CHECK.refused(made, "line(1, 1, " + far + ")", wrong, y -> y.line(1, 1, far));
         }
-        CHECK.refused(x, "line(10, 10, 10), which is there", wrong, () -> x.line(10, 10, 10));
-        CHECK.refused(x, "line(0, 0, 0)", wrong, () -> x.line(0, 0, 0));
-        CHECK.refused(x, "line(0, 0, 5)", wrong, () -> x.line(0, 0, 5));
-        for (int i = 0; i < 8; i++) {
-            x.line(1, -9, i);
-        }
-        CHECK.refused(x, "line(0, 0, 1) with 9", wrong, () -> x.line(0, 0, 1));
-        CHECK.refused(x, "line(1, 2, 10) with 9", wrong, () -> x.line(1, 2, 10));
+        CHECK.refused(made, "line(10, 10, 10), which is there", wrong, y -> y.line(10, 10, 10));
+        CHECK.refused(made, "line(0, 0, 0)", wrong, y -> y.line(0, 0, 0));
+        CHECK.refused(made, "line(0, 0, 5)", wrong, y -> y.line(0, 0, 5));
+        Check.Made full = () -> house(t(1, 1, 1), t(1, -9, 0), t(1, -9, 1), t(1, -9, 2), t(1, -9, 3), t(1, -9, 4),
+                t(1, -9, 5), t(1, -9, 6), t(1, -9, 7));
+        CHECK.refused(full, "line(0, 0, 1) with 9", wrong, y -> y.line(0, 0, 1));
+        CHECK.refused(full, "line(1, 2, 10) with 9", wrong, y -> y.line(1, 2, 10));
     }
 
     private static void linesAreTakenAway() {
-        Chamberwright x = house(t(1, 0, 0), t(0, 1, 0), t(1, 1, 2));
+        Check.Made made = () -> house(t(1, 0, 0), t(0, 1, 0), t(1, 1, 2));
         Class<IndexOutOfBoundsException> none = IndexOutOfBoundsException.class;
-        CHECK.refused(x, "takeAway(3)", none, () -> x.takeAway(3));
-        CHECK.refused(x, "takeAway(-1)", none, () -> x.takeAway(-1));
-        CHECK.refused(x, "takeAway(MAX)", none, () -> x.takeAway(Integer.MAX_VALUE));
-        CHECK.refused(x, "takeAway(MIN)", none, () -> x.takeAway(Integer.MIN_VALUE));
+        CHECK.refused(made, "takeAway(3)", none, y -> y.takeAway(3));
+        CHECK.refused(made, "takeAway(-1)", none, y -> y.takeAway(-1));
+        CHECK.refused(made, "takeAway(MAX)", none, y -> y.takeAway(Integer.MAX_VALUE));
+        CHECK.refused(made, "takeAway(MIN)", none, y -> y.takeAway(Integer.MIN_VALUE));
+        Chamberwright x = made.anew();
         CHECK.same("takeAway(0)", x.takeAway(0), 2);
         CHECK.same("those behind have less", Snapshot.of(x), Snapshot.of(house(t(0, 1, 0), t(1, 1, 2))));
         CHECK.same("the one taken away may come again", x.line(-1, 0, 0), 2);
@@ -114,7 +117,12 @@ public final class LinesTest {
         CHECK.same("takeAway(1)", x.takeAway(1), 1);
         CHECK.same("takeAway(0)", x.takeAway(0), 0);
         CHECK.same("an empty house", Snapshot.of(x), Snapshot.of(new Chamberwright()));
-        CHECK.refused(x, "takeAway(0) of none", none, () -> x.takeAway(0));
+        Check.Made emptied = () -> {
+            Chamberwright y = house(t(1, 2, 3));
+            y.takeAway(0);
+            return y;
+        };
+        CHECK.refused(emptied, "takeAway(0) of none", none, y -> y.takeAway(0));
     }
 
     private static String meetsOf(Chamberwright x) {
@@ -146,13 +154,13 @@ public final class LinesTest {
     }
 
     private static void meetsAreRefused() {
-        Chamberwright x = house(t(1, 0, 0), t(0, 1, 0));
-        CHECK.refused(x, "meet(1, 0)", IndexOutOfBoundsException.class, () -> x.meet(1, 0));
-        CHECK.refused(x, "meet(-1, 0)", IndexOutOfBoundsException.class, () -> x.meet(-1, 0));
-        CHECK.refused(x, "meet(MIN, 9)", IndexOutOfBoundsException.class, () -> x.meet(Integer.MIN_VALUE, 9));
-        CHECK.refused(x, "meet(1, 4)", IndexOutOfBoundsException.class, () -> x.meet(1, 4));
-        CHECK.refused(x, "meet(0, 4)", IllegalArgumentException.class, () -> x.meet(0, 4));
-        CHECK.refused(x, "meet(0, -1)", IllegalArgumentException.class, () -> x.meet(0, -1));
+        Check.Made made = () -> house(t(1, 0, 0), t(0, 1, 0));
+        CHECK.refused(made, "meet(1, 0)", IndexOutOfBoundsException.class, y -> y.meet(1, 0));
+        CHECK.refused(made, "meet(-1, 0)", IndexOutOfBoundsException.class, y -> y.meet(-1, 0));
+        CHECK.refused(made, "meet(MIN, 9)", IndexOutOfBoundsException.class, y -> y.meet(Integer.MIN_VALUE, 9));
+        CHECK.refused(made, "meet(1, 4)", IndexOutOfBoundsException.class, y -> y.meet(1, 4));
+        CHECK.refused(made, "meet(0, 4)", IllegalArgumentException.class, y -> y.meet(0, 4));
+        CHECK.refused(made, "meet(0, -1)", IllegalArgumentException.class, y -> y.meet(0, -1));
     }
 
     private static String polynomialOf(Chamberwright x) {
@@ -172,12 +180,12 @@ public final class LinesTest {
     }
 
     private static void polynomialIsRefused() {
-        Chamberwright x = house(t(1, 0, 0), t(0, 1, 0));
+        Check.Made made = () -> house(t(1, 0, 0), t(0, 1, 0));
         int[] outside = {3, -1, Integer.MAX_VALUE, Integer.MIN_VALUE};
         for (int power : outside) {
-            CHECK.refused(x, "polynomial(" + power + ")", IllegalArgumentException.class, () -> x.polynomial(power));
-            CHECK.refused(x, "polynomialAnew(" + power + ")", IllegalArgumentException.class,
-                    () -> x.polynomialAnew(power));
+            CHECK.refused(made, "polynomial(" + power + ")", IllegalArgumentException.class, y -> y.polynomial(power));
+            CHECK.refused(made, "polynomialAnew(" + power + ")", IllegalArgumentException.class,
+                    y -> y.polynomialAnew(power));
         }
     }
 
@@ -201,11 +209,11 @@ public final class LinesTest {
     }
 
     private static void pointsAreRefused() {
-        Chamberwright x = house(t(1, 0, 0));
+        Check.Made made = () -> house(t(1, 0, 0));
         int[] none = {-31, -2, 0, 1, 4, 6, 8, 9, 15, 21, 25, 27, 30, 32, 33, 35, 37, 1000003,
             Integer.MAX_VALUE, Integer.MIN_VALUE};
         for (int number : none) {
-            CHECK.refused(x, "points(" + number + ")", IllegalArgumentException.class, () -> x.points(number));
+            CHECK.refused(made, "points(" + number + ")", IllegalArgumentException.class, y -> y.points(number));
         }
     }
 }

@@ -43,15 +43,14 @@ public final class MirrorsTest {
     }
 
     private static void reflectionsAreRefused() {
-        Chamberwright x = house(t(1, 0, 0), t(0, 1, 0));
-        CHECK.refused(x, "reflected(2, 0)", NO_SUCH, () -> x.reflected(2, 0));
-        CHECK.refused(x, "reflected(0, 2)", NO_SUCH, () -> x.reflected(0, 2));
-        CHECK.refused(x, "reflected(-1, 0)", NO_SUCH, () -> x.reflected(-1, 0));
-        CHECK.refused(x, "reflected(0, -1)", NO_SUCH, () -> x.reflected(0, -1));
-        CHECK.refused(x, "reflected(MAX, MIN)", NO_SUCH,
-                () -> x.reflected(Integer.MAX_VALUE, Integer.MIN_VALUE));
-        Chamberwright none = new Chamberwright();
-        CHECK.refused(none, "reflected(0, 0) without LINES", NO_SUCH, () -> none.reflected(0, 0));
+        Check.Made made = () -> house(t(1, 0, 0), t(0, 1, 0));
+        CHECK.refused(made, "reflected(2, 0)", NO_SUCH, y -> y.reflected(2, 0));
+        CHECK.refused(made, "reflected(0, 2)", NO_SUCH, y -> y.reflected(0, 2));
+        CHECK.refused(made, "reflected(-1, 0)", NO_SUCH, y -> y.reflected(-1, 0));
+        CHECK.refused(made, "reflected(0, -1)", NO_SUCH, y -> y.reflected(0, -1));
+        CHECK.refused(made, "reflected(MAX, MIN)", NO_SUCH,
+                y -> y.reflected(Integer.MAX_VALUE, Integer.MIN_VALUE));
+        CHECK.refused(Chamberwright::new, "reflected(0, 0) without LINES", NO_SUCH, y -> y.reflected(0, 0));
     }
 
     private static void kaleidoscopes() {
@@ -104,8 +103,8 @@ public final class MirrorsTest {
     }
 
     private static void pairsAreRefused() {
-        Chamberwright x = house(t(1, 0, 0), t(0, 1, 0));
-        CHECK.refused(x, "pair(-1)", NO_SUCH, () -> x.pair(-1));
-        CHECK.refused(x, "pair(MIN)", NO_SUCH, () -> x.pair(Integer.MIN_VALUE));
+        Check.Made made = () -> house(t(1, 0, 0), t(0, 1, 0));
+        CHECK.refused(made, "pair(-1)", NO_SUCH, y -> y.pair(-1));
+        CHECK.refused(made, "pair(MIN)", NO_SUCH, y -> y.pair(Integer.MIN_VALUE));
     }
 }

@@ -87,80 +87,8 @@ public final class ModelTest {
     }
 
     private void ask(int run, int call, int p, int q, int r) {
-        String got = answer(() -> ofProgram(call, p, q, r));
-        String due = answer(() -> ofModel(call, p, q, r));
-        CHECK.same("run " + run + ", call kind " + call + " with " + p + " " + q + " " + r, got, due);
-    }
-
-    private interface Answer {
-        int get();
-    }
-
-    private static String answer(Answer call) {
-        try {
-            return Integer.toString(call.get());
-        } catch (RuntimeException e) {
-            return e.getClass().getName();
-        }
-    }
-
-    private int ofProgram(int call, int p, int q, int r) {
-        return switch (call) {
-            case 0 -> x.line(p, q, r);
-            case 1 -> x.takeAway(p);
-            case 2 -> x.meets();
-            case 3 -> x.meet(p, q);
-            case 4 -> x.polynomial(p);
-            case 5 -> x.polynomialAnew(p);
-            case 6 -> x.points(p);
-            case 7 -> x.rooms();
-            case 8 -> x.bounded();
-            case 9 -> x.room(p, q);
-            case 10 -> x.roomOf(p);
-            case 11 -> x.corner(p, q);
-            case 12 -> x.galleries(p, q);
-            case 13 -> x.gallery(p, q, r);
-            case 14 -> x.project(p, q);
-            case 15 -> x.best(p, q, r);
-            case 16 -> x.reflected(p, q);
-            case 17 -> x.isKaleidoscope() ? 1 : 0;
-            case 18 -> x.pairs();
-            case 19 -> x.pair(p);
-            case 20 -> x.edge(p, q);
-            case 21 -> x.colourings(p);
-            case 22 -> x.colouringsAnew(p);
-            case 23 -> x.directions();
-            default -> x.directionsAnew();
-        };
-    }
-
-    private int ofModel(int call, int p, int q, int r) {
-        return switch (call) {
-            case 0 -> model.line(p, q, r);
-            case 1 -> model.takeAway(p);
-            case 2 -> model.meets();
-            case 3 -> model.meet(p, q);
-            case 4 -> model.polynomial(p);
-            case 5 -> model.polynomialAnew(p);
-            case 6 -> model.points(p);
-            case 7 -> model.rooms();
-            case 8 -> model.bounded();
-            case 9 -> model.room(p, q);
-            case 10 -> model.roomOf(p);
-            case 11 -> model.corner(p, q);
-            case 12 -> model.galleries(p, q);
-            case 13 -> model.gallery(p, q, r);
-            case 14 -> model.project(p, q);
-            case 15 -> model.best(p, q, r);
-            case 16 -> model.reflected(p, q);
-            case 17 -> model.isKaleidoscope() ? 1 : 0;
-            case 18 -> model.pairs();
-            case 19 -> model.pair(p);
-            case 20 -> model.edge(p, q);
-            case 21 -> model.colourings(p);
-            case 22 -> model.colouringsAnew(p);
-            case 23 -> model.directions();
-            default -> model.directionsAnew();
-        };
+        String got = Calls.program(x, call, p, q, r);
+        String due = Calls.model(model, call, p, q, r);
+        CHECK.same("run " + run + ", " + Calls.name(call, p, q, r), got, due);
     }
 }

@@ -93,14 +93,13 @@ public final class RoomsTest {
     }
 
     private static void roomsAreRefused() {
-        Chamberwright x = triangle();
-        CHECK.refused(x, "room(7, 0)", NO_SUCH, () -> x.room(7, 0));
-        CHECK.refused(x, "room(-1, 0)", NO_SUCH, () -> x.room(-1, 0));
-        CHECK.refused(x, "room(7, 4)", NO_SUCH, () -> x.room(7, 4));
-        CHECK.refused(x, "room(MIN, -1)", NO_SUCH, () -> x.room(Integer.MIN_VALUE, -1));
-        CHECK.refused(x, "room(0, 4)", WRONG, () -> x.room(0, 4));
-        CHECK.refused(x, "room(0, -1)", WRONG, () -> x.room(0, -1));
-        CHECK.refused(x, "room(6, MAX)", WRONG, () -> x.room(6, Integer.MAX_VALUE));
+        CHECK.refused(RoomsTest::triangle, "room(7, 0)", NO_SUCH, y -> y.room(7, 0));
+        CHECK.refused(RoomsTest::triangle, "room(-1, 0)", NO_SUCH, y -> y.room(-1, 0));
+        CHECK.refused(RoomsTest::triangle, "room(7, 4)", NO_SUCH, y -> y.room(7, 4));
+        CHECK.refused(RoomsTest::triangle, "room(MIN, -1)", NO_SUCH, y -> y.room(Integer.MIN_VALUE, -1));
+        CHECK.refused(RoomsTest::triangle, "room(0, 4)", WRONG, y -> y.room(0, 4));
+        CHECK.refused(RoomsTest::triangle, "room(0, -1)", WRONG, y -> y.room(0, -1));
+        CHECK.refused(RoomsTest::triangle, "room(6, MAX)", WRONG, y -> y.room(6, Integer.MAX_VALUE));
     }
 
     private static void setsOfRooms() {
@@ -112,10 +111,10 @@ public final class RoomsTest {
         CHECK.same("roomOf(0) to roomOf(7)", Check.row(answers), "0 1 2 3 -1 4 5 6");
         CHECK.same("roomOf(8)", x.roomOf(8), -1);
         CHECK.same("roomOf(511)", x.roomOf(511), -1);
-        CHECK.refused(x, "roomOf(512)", WRONG, () -> x.roomOf(512));
-        CHECK.refused(x, "roomOf(-1)", WRONG, () -> x.roomOf(-1));
-        CHECK.refused(x, "roomOf(MAX)", WRONG, () -> x.roomOf(Integer.MAX_VALUE));
-        CHECK.refused(x, "roomOf(MIN)", WRONG, () -> x.roomOf(Integer.MIN_VALUE));
+        CHECK.refused(RoomsTest::triangle, "roomOf(512)", WRONG, y -> y.roomOf(512));
+        CHECK.refused(RoomsTest::triangle, "roomOf(-1)", WRONG, y -> y.roomOf(-1));
+        CHECK.refused(RoomsTest::triangle, "roomOf(MAX)", WRONG, y -> y.roomOf(Integer.MAX_VALUE));
+        CHECK.refused(RoomsTest::triangle, "roomOf(MIN)", WRONG, y -> y.roomOf(Integer.MIN_VALUE));
         x.takeAway(2);
         CHECK.same("roomOf(7) without the third", x.roomOf(7), -1);
         CHECK.same("roomOf(3) without the third", x.roomOf(3), 3);
@@ -139,10 +138,10 @@ public final class RoomsTest {
         CHECK.same("a ROOM without corners", new Chamberwright().corner(0, 0), -1);
         Chamberwright star = house(t(1, 0, 0), t(0, 1, 0), t(1, 1, 0), t(1, -1, 0));
         CHECK.same("a MEET of four is one corner", told(star, 3), "1 1 1 1 1 1 1 1");
-        CHECK.refused(x, "corner(3, -1)", NO_SUCH, () -> x.corner(3, -1));
-        CHECK.refused(x, "corner(7, 0)", NO_SUCH, () -> x.corner(7, 0));
-        CHECK.refused(x, "corner(-1, 0)", NO_SUCH, () -> x.corner(-1, 0));
-        CHECK.refused(x, "corner(0, MIN)", NO_SUCH, () -> x.corner(0, Integer.MIN_VALUE));
+        CHECK.refused(RoomsTest::triangle, "corner(3, -1)", NO_SUCH, y -> y.corner(3, -1));
+        CHECK.refused(RoomsTest::triangle, "corner(7, 0)", NO_SUCH, y -> y.corner(7, 0));
+        CHECK.refused(RoomsTest::triangle, "corner(-1, 0)", NO_SUCH, y -> y.corner(-1, 0));
+        CHECK.refused(RoomsTest::triangle, "corner(0, MIN)", NO_SUCH, y -> y.corner(0, Integer.MIN_VALUE));
     }
 
     private static void galleriesAreCounted() {
@@ -184,18 +183,17 @@ public final class RoomsTest {
     }
 
     private static void galleriesAreRefused() {
-        Chamberwright x = triangle();
-        CHECK.refused(x, "galleries(0, 7)", NO_SUCH, () -> x.galleries(0, 7));
-        CHECK.refused(x, "galleries(7, 0)", NO_SUCH, () -> x.galleries(7, 0));
-        CHECK.refused(x, "galleries(-1, 0)", NO_SUCH, () -> x.galleries(-1, 0));
-        CHECK.refused(x, "galleries(0, -1)", NO_SUCH, () -> x.galleries(0, -1));
-        CHECK.refused(x, "galleries(7, 7)", NO_SUCH, () -> x.galleries(7, 7));
-        CHECK.refused(x, "gallery(0, 7, 0)", NO_SUCH, () -> x.gallery(0, 7, 0));
-        CHECK.refused(x, "gallery(7, 0, 0)", NO_SUCH, () -> x.gallery(7, 0, 0));
-        CHECK.refused(x, "gallery(0, -1, 0)", NO_SUCH, () -> x.gallery(0, -1, 0));
-        CHECK.refused(x, "gallery(-1, 0, 0)", NO_SUCH, () -> x.gallery(-1, 0, 0));
-        CHECK.refused(x, "gallery(0, 1, -1)", NO_SUCH, () -> x.gallery(0, 1, -1));
-        CHECK.refused(x, "gallery(0, 1, MIN)", NO_SUCH, () -> x.gallery(0, 1, Integer.MIN_VALUE));
+        CHECK.refused(RoomsTest::triangle, "galleries(0, 7)", NO_SUCH, y -> y.galleries(0, 7));
+        CHECK.refused(RoomsTest::triangle, "galleries(7, 0)", NO_SUCH, y -> y.galleries(7, 0));
+        CHECK.refused(RoomsTest::triangle, "galleries(-1, 0)", NO_SUCH, y -> y.galleries(-1, 0));
+        CHECK.refused(RoomsTest::triangle, "galleries(0, -1)", NO_SUCH, y -> y.galleries(0, -1));
+        CHECK.refused(RoomsTest::triangle, "galleries(7, 7)", NO_SUCH, y -> y.galleries(7, 7));
+        CHECK.refused(RoomsTest::triangle, "gallery(0, 7, 0)", NO_SUCH, y -> y.gallery(0, 7, 0));
+        CHECK.refused(RoomsTest::triangle, "gallery(7, 0, 0)", NO_SUCH, y -> y.gallery(7, 0, 0));
+        CHECK.refused(RoomsTest::triangle, "gallery(0, -1, 0)", NO_SUCH, y -> y.gallery(0, -1, 0));
+        CHECK.refused(RoomsTest::triangle, "gallery(-1, 0, 0)", NO_SUCH, y -> y.gallery(-1, 0, 0));
+        CHECK.refused(RoomsTest::triangle, "gallery(0, 1, -1)", NO_SUCH, y -> y.gallery(0, 1, -1));
+        CHECK.refused(RoomsTest::triangle, "gallery(0, 1, MIN)", NO_SUCH, y -> y.gallery(0, 1, Integer.MIN_VALUE));
     }
 
     private static void projections() {
@@ -208,12 +206,11 @@ public final class RoomsTest {
             String[] due = {"0 1 2 3 1 2 3", "2 3 2 3 6 5 6", "1 1 3 3 4 6 6"};
             CHECK.same("projections on MEET " + meet, Check.row(answers), due[meet]);
         }
-        CHECK.refused(x, "project(7, 0)", NO_SUCH, () -> x.project(7, 0));
-        CHECK.refused(x, "project(-1, 0)", NO_SUCH, () -> x.project(-1, 0));
-        CHECK.refused(x, "project(0, 3)", NO_SUCH, () -> x.project(0, 3));
-        CHECK.refused(x, "project(0, -1)", NO_SUCH, () -> x.project(0, -1));
-        Chamberwright none = new Chamberwright();
-        CHECK.refused(none, "project(0, 0) without MEETS", NO_SUCH, () -> none.project(0, 0));
+        CHECK.refused(RoomsTest::triangle, "project(7, 0)", NO_SUCH, y -> y.project(7, 0));
+        CHECK.refused(RoomsTest::triangle, "project(-1, 0)", NO_SUCH, y -> y.project(-1, 0));
+        CHECK.refused(RoomsTest::triangle, "project(0, 3)", NO_SUCH, y -> y.project(0, 3));
+        CHECK.refused(RoomsTest::triangle, "project(0, -1)", NO_SUCH, y -> y.project(0, -1));
+        CHECK.refused(Chamberwright::new, "project(0, 0) without MEETS", NO_SUCH, y -> y.project(0, 0));
     }
 
     private static void bestCorners() {
@@ -253,15 +250,14 @@ public final class RoomsTest {
     }
 
     private static void bestIsRefused() {
-        Chamberwright x = triangle();
-        CHECK.refused(x, "best(7, 1, 0)", NO_SUCH, () -> x.best(7, 1, 0));
-        CHECK.refused(x, "best(-1, 0, 0)", NO_SUCH, () -> x.best(-1, 0, 0));
-        CHECK.refused(x, "best(7, 10, 0)", NO_SUCH, () -> x.best(7, 10, 0));
-        CHECK.refused(x, "best(3, 0, 0)", WRONG, () -> x.best(3, 0, 0));
+        CHECK.refused(RoomsTest::triangle, "best(7, 1, 0)", NO_SUCH, y -> y.best(7, 1, 0));
+        CHECK.refused(RoomsTest::triangle, "best(-1, 0, 0)", NO_SUCH, y -> y.best(-1, 0, 0));
+        CHECK.refused(RoomsTest::triangle, "best(7, 10, 0)", NO_SUCH, y -> y.best(7, 10, 0));
+        CHECK.refused(RoomsTest::triangle, "best(3, 0, 0)", WRONG, y -> y.best(3, 0, 0));
         int[] outside = {10, -10, Integer.MAX_VALUE, Integer.MIN_VALUE};
         for (int far : outside) {
-            CHECK.refused(x, "best(3, " + far + ", 1)", WRONG, () -> x.best(3, far, 1));
-            CHECK.refused(x, "best(3, 1, " + far + ")", WRONG, () -> x.best(3, 1, far));
+            CHECK.refused(RoomsTest::triangle, "best(3, " + far + ", 1)", WRONG, y -> y.best(3, far, 1));
+            CHECK.refused(RoomsTest::triangle, "best(3, 1, " + far + ")", WRONG, y -> y.best(3, 1, far));
         }
     }
 }
