@@ -755,7 +755,10 @@ public final class Chamberwright {
             return lines.count() > 0;
         }
 
-        /** A half plane has no bound straight away from its LINES, where none of them leads: so the goal's own way counts too. */
+        /**
+         * A half plane has no bound straight away from its LINES, where none of them leads: so the goal's
+         * own way counts too.
+         */
         boolean hasBound(Lines lines, int room, int gx, int gy) {
             for (int line = 0; line < lines.count(); line++) {
                 int dx = lines.b(line);

@@ -13,9 +13,12 @@ final class Check {
         void of(Chamberwright x);
     }
 
+    /** A broken class has thousands of wrong answers; of each sentence the first ones tell enough. */
+    private static final int MOST_TOLD = 20;
+
     private final String name;
     private String sentence = "";
-    private int lookedAt = 0;
+    private int told = 0;
     private int passed = 0;
     private int failed = 0;
 
@@ -23,19 +26,41 @@ final class Check {
         this.name = name;
     }
 
-    /** Begins what is due by one sentence of the document; one under which nothing was looked at is a failure. */
-    void sentence(String words) {
-        endSentence();
+    /**
+     * Looks at what is due by one sentence of the document. A test that looks at nothing has failed, and so has one
+     * that ends with an exception; the next ones go on.
+     */
+    void sentence(String words, Runnable test) {
         sentence = words;
-        lookedAt = 0;
-    }
-
-    private void endSentence() {
-        if (!sentence.isEmpty() && lookedAt == 0) {
-            failed++;
-            System.out.println(name + ": nothing was looked at for: " + sentence);
+        told = 0;
+        int before = passed + failed;
+        try {
+            test.run();
+        } catch (RuntimeException e) {
+            wrong("ended with " + e + " at " + place(e));
+        }
+        if (passed + failed == before) {
+            wrong("looked at nothing");
         }
         sentence = "";
+    }
+
+    /** Where in the tests the call stands that threw. */
+    private static String place(RuntimeException e) {
+        for (StackTraceElement element : e.getStackTrace()) {
+            if (!element.getClassName().startsWith("Chamberwright")) {
+                return element.toString();
+            }
+        }
+        return "no known place";
+    }
+
+    private void wrong(String what) {
+        failed++;
+        told++;
+        if (told <= MOST_TOLD) {
+            System.out.println(name + ": " + (sentence.isEmpty() ? "" : "[" + sentence + "] ") + what);
+        }
     }
 
     void same(String what, long got, long due) {
@@ -43,13 +68,10 @@ final class Check {
     }
 
     void same(String what, String got, String due) {
-        lookedAt++;
         if (got.equals(due)) {
             passed++;
         } else {
-            failed++;
-            String about = sentence.isEmpty() ? "" : "[" + sentence + "] ";
-            System.out.println(name + ": " + about + what + " answered " + got + ", due is " + due);
+            wrong(what + " answered " + got + ", due is " + due);
         }
     }
 
@@ -81,7 +103,6 @@ final class Check {
     }
 
     void endsWell() {
-        endSentence();
         System.out.println(name + ": " + passed + " answers as due, " + failed + " not");
         if (failed > 0 || passed == 0) {
             System.exit(1);

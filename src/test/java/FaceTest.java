@@ -96,6 +96,12 @@ public final class FaceTest {
                     Modifier.isPrivate(method.getModifiers()) && open.contains(method.getName()));
             CHECK.yes(method.getName() + " has seven parameters at most", method.getParameterCount() <= 7);
         }
+        for (Class<?> inside : Chamberwright.class.getDeclaredClasses()) {
+            for (Method method : inside.getDeclaredMethods()) {
+                CHECK.no("a private " + method.getName() + " of " + inside.getSimpleName() + " beside a public one",
+                        Modifier.isPrivate(method.getModifiers()) && open.contains(method.getName()));
+            }
+        }
     }
 
     private static void classesInside() {

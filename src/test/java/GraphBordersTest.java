@@ -11,23 +11,30 @@ public final class GraphBordersTest {
     }
 
     public static void main(String[] args) {
-        anEdgeIsDrawn();
-        anEdgeThatIsThereIsTakenAway();
-        howManyEdgesThereAreThen();
-        noSuchDotOfEither();
-        bothAreOne();
-        noSuchDotIsNamedFirst();
-        coloursFromTheLeastToTheGreatest();
-        eachDotAlsoWithoutEdges();
-        theDotsOfEachEdgeHaveUnlikeOnes();
-        coloursOutOfRange();
-        coloursAnewFromTheLeastToTheGreatest();
-        eachDotAnewAlsoWithoutEdges();
-        coloursAnewOutOfRange();
-        oneDirectionWithoutEdges();
-        directionsWithoutRings();
-        oneDirectionAnewWithoutEdges();
-        directionsAnewWithoutRings();
+        CHECK.sentence("22: dot and other, 0 to 5", GraphBordersTest::anEdgeIsDrawn);
+        CHECK.sentence("22: or takes it away, if it is there", GraphBordersTest::anEdgeThatIsThereIsTakenAway);
+        CHECK.sentence("22: Returns how many EDGES there are then", GraphBordersTest::howManyEdgesThereAreThen);
+        CHECK.sentence("22: Throws IndexOutOfBoundsException if there is no such DOT, of either",
+                GraphBordersTest::noSuchDotOfEither);
+        CHECK.sentence("22: Throws IllegalArgumentException if both are one", GraphBordersTest::bothAreOne);
+        CHECK.sentence("22: of edge's exceptions the one named first", GraphBordersTest::noSuchDotIsNamedFirst);
+        CHECK.sentence("23: colours, 0 to 6", GraphBordersTest::coloursFromTheLeastToTheGreatest);
+        CHECK.sentence("23: gives each DOT, also one without EDGES, one of them",
+                GraphBordersTest::eachDotAlsoWithoutEdges);
+        CHECK.sentence("23: so that the two DOTS of each EDGE have unlike ones",
+                GraphBordersTest::theDotsOfEachEdgeHaveUnlikeOnes);
+        CHECK.sentence("23: Throws IllegalArgumentException if colours is out of range",
+                GraphBordersTest::coloursOutOfRange);
+        CHECK.sentence("24: colours, 0 to 6", GraphBordersTest::coloursAnewFromTheLeastToTheGreatest);
+        CHECK.sentence("24: each DOT, also one without EDGES", GraphBordersTest::eachDotAnewAlsoWithoutEdges);
+        CHECK.sentence("24: Throws IllegalArgumentException if colours is out of range",
+                GraphBordersTest::coloursAnewOutOfRange);
+        CHECK.sentence("25: 1 without EDGES", GraphBordersTest::oneDirectionWithoutEdges);
+        CHECK.sentence("25: without rings, if one never comes from a DOT to itself",
+                GraphBordersTest::directionsWithoutRings);
+        CHECK.sentence("26: 1 without EDGES", GraphBordersTest::oneDirectionAnewWithoutEdges);
+        CHECK.sentence("26: the same, found with a number of colours of -1",
+                GraphBordersTest::directionsAnewWithoutRings);
         CHECK.endsWell();
     }
 
@@ -40,7 +47,6 @@ public final class GraphBordersTest {
     // ---- promise 22
 
     private static void anEdgeIsDrawn() {
-        CHECK.sentence("22: dot and other, 0 to 5");
         for (int dot = 0; dot < 6; dot++) {
             for (int other = 0; other < 6; other++) {
                 if (dot != other) {
@@ -53,7 +59,6 @@ public final class GraphBordersTest {
     }
 
     private static void anEdgeThatIsThereIsTakenAway() {
-        CHECK.sentence("22: or takes it away, if it is there");
         for (int dot = 0; dot < 6; dot++) {
             for (int other = 0; other < 6; other++) {
                 if (dot != other) {
@@ -69,7 +74,6 @@ public final class GraphBordersTest {
     }
 
     private static void howManyEdgesThereAreThen() {
-        CHECK.sentence("22: Returns how many EDGES there are then");
         Chamberwright x = new Chamberwright();
         int[] dots = House.allDots();
         for (int at = 0; at < dots.length; at += 2) {
@@ -85,7 +89,6 @@ public final class GraphBordersTest {
     }
 
     private static void noSuchDotOfEither() {
-        CHECK.sentence("22: Throws IndexOutOfBoundsException if there is no such DOT, of either");
         for (House house : House.values()) {
             for (int none : NO_DOTS) {
                 CHECK.refused(house, "edge(" + none + ", 0) of " + house, NO_SUCH, x -> x.edge(none, 0));
@@ -96,7 +99,6 @@ public final class GraphBordersTest {
     }
 
     private static void bothAreOne() {
-        CHECK.sentence("22: Throws IllegalArgumentException if both are one");
         for (House house : House.values()) {
             for (int dot = 0; dot < 6; dot++) {
                 int one = dot;
@@ -106,7 +108,6 @@ public final class GraphBordersTest {
     }
 
     private static void noSuchDotIsNamedFirst() {
-        CHECK.sentence("22: of edge's exceptions the one named first");
         for (House house : House.values()) {
             for (int none : NO_DOTS) {
                 CHECK.refused(house, "edge(" + none + ", " + none + ") of " + house, NO_SUCH, x -> x.edge(none, none));
@@ -150,7 +151,6 @@ public final class GraphBordersTest {
     }
 
     private static void coloursFromTheLeastToTheGreatest() {
-        CHECK.sentence("23: colours, 0 to 6");
         for (int kind = 0; kind < GRAPHS.length; kind++) {
             CHECK.same("graph " + kind, colourings(graph(GRAPHS[kind])), COLOURINGS[kind]);
         }
@@ -158,7 +158,6 @@ public final class GraphBordersTest {
     }
 
     private static void eachDotAlsoWithoutEdges() {
-        CHECK.sentence("23: gives each DOT, also one without EDGES, one of them");
         CHECK.same("with 0 colours", new Chamberwright().colourings(0), 0);
         CHECK.same("with 1", new Chamberwright().colourings(1), 1);
         CHECK.same("with 6", new Chamberwright().colourings(6), 46656);
@@ -168,7 +167,6 @@ public final class GraphBordersTest {
     }
 
     private static void theDotsOfEachEdgeHaveUnlikeOnes() {
-        CHECK.sentence("23: so that the two DOTS of each EDGE have unlike ones");
         int[] dots = House.allDots();
         for (int at = 0; at < dots.length; at += 2) {
             CHECK.same("one EDGE, 1 colour", graph(dots[at], dots[at + 1]).colourings(1), 0);
@@ -180,7 +178,6 @@ public final class GraphBordersTest {
     }
 
     private static void coloursOutOfRange() {
-        CHECK.sentence("23: Throws IllegalArgumentException if colours is out of range");
         for (House house : House.values()) {
             for (int colours : new int[] {-1, -6, 7, 8, LEAST, GREATEST}) {
                 CHECK.refused(house, "colourings(" + colours + ") of " + house, WRONG, x -> x.colourings(colours));
@@ -189,7 +186,6 @@ public final class GraphBordersTest {
     }
 
     private static void coloursAnewFromTheLeastToTheGreatest() {
-        CHECK.sentence("24: colours, 0 to 6");
         for (int kind = 0; kind < GRAPHS.length; kind++) {
             CHECK.same("graph " + kind, colouringsAnew(graph(GRAPHS[kind])), COLOURINGS[kind]);
         }
@@ -201,7 +197,6 @@ public final class GraphBordersTest {
     }
 
     private static void eachDotAnewAlsoWithoutEdges() {
-        CHECK.sentence("24: each DOT, also one without EDGES");
         CHECK.same("with 0 colours", new Chamberwright().colouringsAnew(0), 0);
         CHECK.same("with 1", new Chamberwright().colouringsAnew(1), 1);
         CHECK.same("with 6", new Chamberwright().colouringsAnew(6), 46656);
@@ -211,7 +206,6 @@ public final class GraphBordersTest {
     }
 
     private static void coloursAnewOutOfRange() {
-        CHECK.sentence("24: Throws IllegalArgumentException if colours is out of range");
         for (House house : House.values()) {
             for (int colours : new int[] {-1, -6, 7, 8, LEAST, GREATEST}) {
                 CHECK.refused(house, "colouringsAnew(" + colours + ") of " + house, WRONG,
@@ -223,7 +217,6 @@ public final class GraphBordersTest {
     // ---- promises 25 and 26
 
     private static void oneDirectionWithoutEdges() {
-        CHECK.sentence("25: 1 without EDGES");
         CHECK.same("of a new object", new Chamberwright().directions(), 1);
         CHECK.same("with LINES alone", House.PENCIL.anew().directions(), 1);
         CHECK.same("emptied", House.EMPTIED.anew().directions(), 1);
@@ -231,7 +224,6 @@ public final class GraphBordersTest {
     }
 
     private static void directionsWithoutRings() {
-        CHECK.sentence("25: without rings, if one never comes from a DOT to itself");
         for (int kind = 0; kind < GRAPHS.length; kind++) {
             CHECK.same("graph " + kind, graph(GRAPHS[kind]).directions(), DIRECTIONS[kind]);
         }
@@ -246,7 +238,6 @@ public final class GraphBordersTest {
     }
 
     private static void oneDirectionAnewWithoutEdges() {
-        CHECK.sentence("26: 1 without EDGES");
         CHECK.same("of a new object", new Chamberwright().directionsAnew(), 1);
         CHECK.same("with LINES alone", House.PENCIL.anew().directionsAnew(), 1);
         CHECK.same("emptied", House.EMPTIED.anew().directionsAnew(), 1);
@@ -254,7 +245,6 @@ public final class GraphBordersTest {
     }
 
     private static void directionsAnewWithoutRings() {
-        CHECK.sentence("26: the same, found with a number of colours of -1");
         for (int kind = 0; kind < GRAPHS.length; kind++) {
             CHECK.same("graph " + kind, graph(GRAPHS[kind]).directionsAnew(), DIRECTIONS[kind]);
         }

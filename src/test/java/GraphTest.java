@@ -56,7 +56,8 @@ public final class GraphTest {
         }
         for (int dot = 0; dot < 6; dot++) {
             int one = dot;
-            CHECK.refused(made, "edge(" + one + ", " + one + ")", IllegalArgumentException.class, y -> y.edge(one, one));
+            CHECK.refused(made, "edge(" + one + ", " + one + ")", IllegalArgumentException.class,
+                    y -> y.edge(one, one));
         }
         CHECK.same("the EDGES are two", made.anew().edge(2, 3), 3);
     }
@@ -125,7 +126,8 @@ public final class GraphTest {
         Check.Made made = () -> graph(0, 1, 1, 2);
         int[] outside = {-1, 7, Integer.MAX_VALUE, Integer.MIN_VALUE};
         for (int colours : outside) {
-            CHECK.refused(made, "colourings(" + colours + ")", IllegalArgumentException.class, y -> y.colourings(colours));
+            CHECK.refused(made, "colourings(" + colours + ")", IllegalArgumentException.class,
+                    y -> y.colourings(colours));
             CHECK.refused(made, "colouringsAnew(" + colours + ")", IllegalArgumentException.class,
                     y -> y.colouringsAnew(colours));
         }

@@ -12,34 +12,49 @@ public final class LineBordersTest {
     }
 
     public static void main(String[] args) {
-        aNewObjectHasNoLines();
-        aNewObjectHasNoEdges();
-        everyTellingInRangeIsDrawn();
-        outOfRangeIsRefused();
-        bothZeroIsRefused();
-        theSamePointsAreOneLine();
-        oneThatIsThereIsRefused();
-        aTenthIsRefused();
-        rangeIsNamedFirst();
-        linesReturnTheirNumbers();
-        aboveGoesByTheFirstTelling();
-        noSuchLineIsTakenAway();
-        howManyThereAreThen();
-        thoseBehindHaveLess();
-        meetsAreOnTwoLinesOrMore();
-        meetsAreNumberedByXThenY();
-        meetsHaveLowestTerms();
-        noSuchMeet();
-        whatOfAMeetIsOutOfRange();
-        noSuchMeetIsNamedFirst();
-        powersInRange();
-        eachMeetLessOne();
-        pointsOnLowerLines();
-        powersOutOfRange();
-        pointsOverTheLeastAndTheGreatestPrime();
-        noneOfThesePrimes();
-        alsoIfAAndBAreMultiples();
-        pointsAsTold();
+        CHECK.sentence("1: No LINES", LineBordersTest::aNewObjectHasNoLines);
+        CHECK.sentence("1: No EDGES", LineBordersTest::aNewObjectHasNoEdges);
+        CHECK.sentence("2: a, b and c, each -9 to 9", LineBordersTest::everyTellingInRangeIsDrawn);
+        CHECK.sentence("2: Throws IllegalArgumentException if a, b or c is out of range",
+                LineBordersTest::outOfRangeIsRefused);
+        CHECK.sentence("2: Throws IllegalArgumentException if a and b are both 0", LineBordersTest::bothZeroIsRefused);
+        CHECK.sentence("2: Two tellings are one LINE, if they have the same points",
+                LineBordersTest::theSamePointsAreOneLine);
+        CHECK.sentence("2: Throws IllegalStateException if it is one that is there",
+                LineBordersTest::oneThatIsThereIsRefused);
+        CHECK.sentence("2: Throws IllegalStateException if there are 9", LineBordersTest::aTenthIsRefused);
+        CHECK.sentence("2: the exception that the @throws lines name first is thrown",
+                LineBordersTest::rangeIsNamedFirst);
+        CHECK.sentence("2: LINES are numbered from 0, up to 9", LineBordersTest::linesReturnTheirNumbers);
+        CHECK.sentence("2: above a LINE, as it was told, whatever else tells the same LINE",
+                LineBordersTest::aboveGoesByTheFirstTelling);
+        CHECK.sentence("3: Throws IndexOutOfBoundsException if there is no such LINE",
+                LineBordersTest::noSuchLineIsTakenAway);
+        CHECK.sentence("3: Returns how many there are then", LineBordersTest::howManyThereAreThen);
+        CHECK.sentence("3: when one is taken away, those behind it have numbers less by 1",
+                LineBordersTest::thoseBehindHaveLess);
+        CHECK.sentence("4: A MEET is a point that is on two LINES or more", LineBordersTest::meetsAreOnTwoLinesOrMore);
+        CHECK.sentence("5: MEETS are numbered by their x, lower ones first, of those with one x by their y",
+                LineBordersTest::meetsAreNumberedByXThenY);
+        CHECK.sentence("5: D is above 0, and no number above 1 divides all three",
+                LineBordersTest::meetsHaveLowestTerms);
+        CHECK.sentence("5: Throws IndexOutOfBoundsException if there is no such MEET", LineBordersTest::noSuchMeet);
+        CHECK.sentence("5: Throws IllegalArgumentException if what is out of range",
+                LineBordersTest::whatOfAMeetIsOutOfRange);
+        CHECK.sentence("5: of meet's exceptions the one named first", LineBordersTest::noSuchMeetIsNamedFirst);
+        CHECK.sentence("6, 7: power, 0 to 2: that of t", LineBordersTest::powersInRange);
+        CHECK.sentence("6: for each MEET, as many as there are LINES through it, less 1",
+                LineBordersTest::eachMeetLessOne);
+        CHECK.sentence("7: more by as many as there are points on it and on LINES with lower numbers",
+                LineBordersTest::pointsOnLowerLines);
+        CHECK.sentence("6, 7: Throws IllegalArgumentException if power is out of range",
+                LineBordersTest::powersOutOfRange);
+        CHECK.sentence("8: a prime number from 2 to 31", LineBordersTest::pointsOverTheLeastAndTheGreatestPrime);
+        CHECK.sentence("8: Throws IllegalArgumentException if prime is none of these",
+                LineBordersTest::noneOfThesePrimes);
+        CHECK.sentence("8: is a multiple of the prime, also if a and b are such",
+                LineBordersTest::alsoIfAAndBAreMultiples);
+        CHECK.sentence("8: of no LINE, as it was told", LineBordersTest::pointsAsTold);
         CHECK.endsWell();
     }
 
@@ -53,7 +68,6 @@ public final class LineBordersTest {
     // ---- promise 1
 
     private static void aNewObjectHasNoLines() {
-        CHECK.sentence("1: No LINES");
         CHECK.same("takeAway(0)", Check.thrownBy(new Chamberwright(), x -> x.takeAway(0)), "IndexOutOfBoundsException");
         CHECK.same("the number of t", new Chamberwright().polynomial(1), 0);
         CHECK.same("meets()", new Chamberwright().meets(), 0);
@@ -65,7 +79,6 @@ public final class LineBordersTest {
     }
 
     private static void aNewObjectHasNoEdges() {
-        CHECK.sentence("1: No EDGES");
         int[] dots = House.allDots();
         for (int at = 0; at < dots.length; at += 2) {
             int turned = new Chamberwright().edge(dots[at], dots[at + 1]);
@@ -80,7 +93,6 @@ public final class LineBordersTest {
     // ---- promise 2
 
     private static void everyTellingInRangeIsDrawn() {
-        CHECK.sentence("2: a, b and c, each -9 to 9");
         for (int a = -9; a <= 9; a++) {
             for (int b = -9; b <= 9; b++) {
                 for (int c = -9; c <= 9; c++) {
@@ -105,7 +117,6 @@ public final class LineBordersTest {
     }
 
     private static void outOfRangeIsRefused() {
-        CHECK.sentence("2: Throws IllegalArgumentException if a, b or c is out of range");
         for (int far : new int[] {-10, 10, LEAST, GREATEST}) {
             refusedInAll("line(" + far + ", -9, 9)", WRONG, x -> x.line(far, -9, 9));
             refusedInAll("line(9, " + far + ", 0)", WRONG, x -> x.line(9, far, 0));
@@ -120,7 +131,6 @@ public final class LineBordersTest {
     }
 
     private static void bothZeroIsRefused() {
-        CHECK.sentence("2: Throws IllegalArgumentException if a and b are both 0");
         for (int c = -10; c <= 10; c++) {
             int third = c;
             CHECK.refused(House.TRIANGLE, "line(0, 0, " + c + ")", WRONG, x -> x.line(0, 0, third));
@@ -134,7 +144,6 @@ public final class LineBordersTest {
     }
 
     private static void theSamePointsAreOneLine() {
-        CHECK.sentence("2: Two tellings are one LINE, if they have the same points");
         int[] firsts = {1, 2, 3, 1, 0, 0, 0, 1, 0, -3, 0, -6, 0, 7, 9, 4, -6, 8, 9, 9, 9, -9, 9, 0, 5, 3, -7, 0, -9, 9};
         for (int at = 0; at < firsts.length; at += 3) {
             int[] first = {firsts[at], firsts[at + 1], firsts[at + 2]};
@@ -169,7 +178,6 @@ public final class LineBordersTest {
     }
 
     private static void oneThatIsThereIsRefused() {
-        CHECK.sentence("2: Throws IllegalStateException if it is one that is there");
         for (House house : House.values()) {
             for (int line = 0; line < house.lines(); line++) {
                 int[] t = house.telling(line);
@@ -184,7 +192,6 @@ public final class LineBordersTest {
     }
 
     private static void aTenthIsRefused() {
-        CHECK.sentence("2: Throws IllegalStateException if there are 9");
         for (House house : House.values()) {
             if (house.lines() == 9) {
                 CHECK.refused(house, "a tenth LINE of " + house, NOT_NOW, x -> x.line(7, -5, 3));
@@ -195,7 +202,6 @@ public final class LineBordersTest {
     }
 
     private static void rangeIsNamedFirst() {
-        CHECK.sentence("2: the exception that the @throws lines name first is thrown");
         CHECK.refused(House.FULL, "out of range with 9", WRONG, x -> x.line(10, 0, 0));
         CHECK.refused(House.FULL, "both 0 with 9", WRONG, x -> x.line(0, 0, 9));
         CHECK.refused(House.PENCIL, "10 10 20, which is there", WRONG, x -> x.line(10, 10, 20));
@@ -205,7 +211,6 @@ public final class LineBordersTest {
     }
 
     private static void linesReturnTheirNumbers() {
-        CHECK.sentence("2: LINES are numbered from 0, up to 9");
         for (House house : House.values()) {
             Chamberwright x = new Chamberwright();
             for (int line = 0; line < house.lines(); line++) {
@@ -221,12 +226,14 @@ public final class LineBordersTest {
     }
 
     private static void aboveGoesByTheFirstTelling() {
-        CHECK.sentence("2: above a LINE, as it was told, whatever else tells the same LINE");
         CHECK.same("as told", sets(House.of(1, 0, 1, 1, 0, 3)), "0 1 3");
         CHECK.same("told the other way round", sets(House.of(-2, 0, -2, 1, 0, 3)), "0 1 2");
         Chamberwright x = House.of(-2, 0, -2, 1, 0, 3);
         Check.thrownBy(x, y -> y.line(1, 0, 1));
         CHECK.same("told again, which is refused", sets(x), "0 1 2");
+        x.line(1, 0, 4);
+        CHECK.same("and looked at anew", sets(x), "0 1 2 6");
+        x.takeAway(2);
         x.takeAway(0);
         x.line(2, 0, 2);
         CHECK.same("taken away and told again", sets(x), "0 2 3");
@@ -243,7 +250,6 @@ public final class LineBordersTest {
     // ---- promise 3
 
     private static void noSuchLineIsTakenAway() {
-        CHECK.sentence("3: Throws IndexOutOfBoundsException if there is no such LINE");
         for (House house : House.values()) {
             for (int line : new int[] {-1, house.lines(), house.lines() + 1, 9, 10, LEAST, GREATEST}) {
                 CHECK.refused(house, "takeAway(" + line + ") of " + house, NO_SUCH, x -> x.takeAway(line));
@@ -256,7 +262,6 @@ public final class LineBordersTest {
     }
 
     private static void howManyThereAreThen() {
-        CHECK.sentence("3: Returns how many there are then");
         Chamberwright x = House.FULL.anew();
         Chamberwright y = House.FULL.anew();
         for (int left = 8; left >= 0; left--) {
@@ -267,7 +272,6 @@ public final class LineBordersTest {
     }
 
     private static void thoseBehindHaveLess() {
-        CHECK.sentence("3: when one is taken away, those behind it have numbers less by 1");
         for (House house : House.values()) {
             for (int line = 0; line < house.lines(); line++) {
                 Chamberwright x = house.anew();
@@ -284,7 +288,6 @@ public final class LineBordersTest {
     // ---- promises 4 and 5
 
     private static void meetsAreOnTwoLinesOrMore() {
-        CHECK.sentence("4: A MEET is a point that is on two LINES or more");
         for (House house : House.values()) {
             CHECK.same("meets() of " + house, house.anew().meets(), house.meets);
             for (int[] point : house.points()) {
@@ -305,7 +308,6 @@ public final class LineBordersTest {
     }
 
     private static void meetsAreNumberedByXThenY() {
-        CHECK.sentence("5: MEETS are numbered by their x, lower ones first, of those with one x by their y");
         for (House house : House.values()) {
             int[][] points = house.points();
             for (int meet = 1; meet < points.length; meet++) {
@@ -329,7 +331,6 @@ public final class LineBordersTest {
     }
 
     private static void meetsHaveLowestTerms() {
-        CHECK.sentence("5: D is above 0, and no number above 1 divides all three");
         for (House house : House.values()) {
             for (int[] point : house.points()) {
                 CHECK.yes("D of " + Check.row(point) + " of " + house, point[2] > 0);
@@ -348,7 +349,6 @@ public final class LineBordersTest {
     }
 
     private static void noSuchMeet() {
-        CHECK.sentence("5: Throws IndexOutOfBoundsException if there is no such MEET");
         for (House house : House.values()) {
             for (int meet : new int[] {-1, house.meets, house.meets + 1, 36, LEAST, GREATEST}) {
                 CHECK.refused(house, "meet(" + meet + ", 0) of " + house, NO_SUCH, x -> x.meet(meet, 0));
@@ -359,7 +359,6 @@ public final class LineBordersTest {
     }
 
     private static void whatOfAMeetIsOutOfRange() {
-        CHECK.sentence("5: Throws IllegalArgumentException if what is out of range");
         for (int what : new int[] {-1, 4, LEAST, GREATEST}) {
             CHECK.refused(House.FULL, "meet(0, " + what + ")", WRONG, x -> x.meet(0, what));
             CHECK.refused(House.FULL, "meet(35, " + what + ")", WRONG, x -> x.meet(35, what));
@@ -368,7 +367,6 @@ public final class LineBordersTest {
     }
 
     private static void noSuchMeetIsNamedFirst() {
-        CHECK.sentence("5: of meet's exceptions the one named first");
         for (House house : House.values()) {
             CHECK.refused(house, "meet(count, 4) of " + house, NO_SUCH, x -> x.meet(house.meets, 4));
             CHECK.refused(house, "meet(-1, -1) of " + house, NO_SUCH, x -> x.meet(-1, -1));
@@ -383,7 +381,6 @@ public final class LineBordersTest {
     }
 
     private static void powersInRange() {
-        CHECK.sentence("6, 7: power, 0 to 2: that of t");
         CHECK.same("without LINES", ways(new Chamberwright()), "1 0 0, 1 0 0");
         CHECK.same("one LINE", ways(House.ONE.anew()), "1 -1 0, 1 -1 0");
         CHECK.same("nine without MEETS", ways(House.BESIDE.anew()), "1 -9 0, 1 -9 0");
@@ -392,7 +389,6 @@ public final class LineBordersTest {
     }
 
     private static void eachMeetLessOne() {
-        CHECK.sentence("6: for each MEET, as many as there are LINES through it, less 1");
         CHECK.same("nine through one", House.PENCIL.anew().polynomial(0), 8);
         CHECK.same("eight through one", House.NEAR_PENCIL.anew().polynomial(0), 15);
         CHECK.same("four through one, and one past it", House.PAST_STAR.anew().polynomial(0), 7);
@@ -400,7 +396,6 @@ public final class LineBordersTest {
     }
 
     private static void pointsOnLowerLines() {
-        CHECK.sentence("7: more by as many as there are points on it and on LINES with lower numbers");
         CHECK.same("nine through one", House.PENCIL.anew().polynomialAnew(0), 8);
         CHECK.same("eight through one", House.NEAR_PENCIL.anew().polynomialAnew(0), 15);
         CHECK.same("four through one, and one past it", House.PAST_STAR.anew().polynomialAnew(0), 7);
@@ -410,7 +405,6 @@ public final class LineBordersTest {
     }
 
     private static void powersOutOfRange() {
-        CHECK.sentence("6, 7: Throws IllegalArgumentException if power is out of range");
         for (int power : new int[] {-1, 3, LEAST, GREATEST}) {
             refusedInAll("polynomial(" + power + ")", WRONG, x -> x.polynomial(power));
             refusedInAll("polynomialAnew(" + power + ")", WRONG, x -> x.polynomialAnew(power));
@@ -420,7 +414,6 @@ public final class LineBordersTest {
     // ---- promise 8
 
     private static void pointsOverTheLeastAndTheGreatestPrime() {
-        CHECK.sentence("8: a prime number from 2 to 31");
         for (int prime : PRIMES) {
             CHECK.same("points(" + prime + ") without LINES", new Chamberwright().points(prime), prime * prime);
             CHECK.same("points(" + prime + ") emptied", House.EMPTIED.anew().points(prime), prime * prime);
@@ -433,7 +426,6 @@ public final class LineBordersTest {
     }
 
     private static void noneOfThesePrimes() {
-        CHECK.sentence("8: Throws IllegalArgumentException if prime is none of these");
         for (int number = -40; number <= 1000; number++) {
             if (!isOneOfThese(number)) {
                 int none = number;
@@ -456,7 +448,6 @@ public final class LineBordersTest {
     }
 
     private static void alsoIfAAndBAreMultiples() {
-        CHECK.sentence("8: is a multiple of the prime, also if a and b are such");
         for (int prime : new int[] {2, 3, 5, 7}) {
             String over = " over " + prime;
             CHECK.same("a, b and c are multiples" + over, House.of(prime, -prime, prime).points(prime), 0);
@@ -472,7 +463,6 @@ public final class LineBordersTest {
     }
 
     private static void pointsAsTold() {
-        CHECK.sentence("8: of no LINE, as it was told");
         CHECK.same("1 0 1 over 2", House.of(1, 0, 1).points(2), 2);
         CHECK.same("2 0 2 over 2", House.of(2, 0, 2).points(2), 0);
         CHECK.same("-3 6 9 over 3", House.of(-3, 6, 9).points(3), 0);

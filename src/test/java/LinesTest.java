@@ -60,8 +60,8 @@ public final class LinesTest {
         for (int i = 0; i < 9; i++) {
             CHECK.same("LINE " + i, x.line(1, i, 9 - i), i);
         }
-        Check.Made made = () -> house(t(1, 0, 9), t(1, 1, 8), t(1, 2, 7), t(1, 3, 6), t(1, 4, 5), t(1, 5, 4), t(1, 6, 3),
-                t(1, 7, 2), t(1, 8, 1));
+        Check.Made made = () -> house(t(1, 0, 9), t(1, 1, 8), t(1, 2, 7), t(1, 3, 6), t(1, 4, 5), t(1, 5, 4),
+                t(1, 6, 3), t(1, 7, 2), t(1, 8, 1));
         CHECK.refused(made, "a tenth LINE", IllegalStateException.class, y -> y.line(0, 1, 9));
         CHECK.refused(made, "a tenth LINE that is there", IllegalStateException.class, y -> y.line(1, 0, 9));
         CHECK.same("takeAway(8)", x.takeAway(8), 8);

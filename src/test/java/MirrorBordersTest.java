@@ -10,24 +10,27 @@ public final class MirrorBordersTest {
     }
 
     public static void main(String[] args) {
-        inItself();
-        inAnotherOne();
-        noneIfItIsNoneOfTheHouse();
-        noSuchLineOfEither();
-        aKaleidoscopeWithFewerThanTwo();
-        forAnyTwoOfItsLines();
-        pairsHaveAMeet();
-        oneIsTheLowestThroughIt();
-        pairsAreNumberedByTheLowerLine();
-        noneIfNotSoManyPairs();
-        placeBelowZero();
+        CHECK.sentence("18: in itself", MirrorBordersTest::inItself);
+        CHECK.sentence("18: in another one, as in a mirror", MirrorBordersTest::inAnotherOne);
+        CHECK.sentence("18: NONE if it is none of the house", MirrorBordersTest::noneIfItIsNoneOfTheHouse);
+        CHECK.sentence("18: Throws IndexOutOfBoundsException if there is no such LINE, of either",
+                MirrorBordersTest::noSuchLineOfEither);
+        CHECK.sentence("19: for any two of its LINES, when there are no two",
+                MirrorBordersTest::aKaleidoscopeWithFewerThanTwo);
+        CHECK.sentence("19: for any two of its LINES the reflection of the one in the other one is one of its LINES",
+                MirrorBordersTest::forAnyTwoOfItsLines);
+        CHECK.sentence("20: A pair is two LINES with a MEET", MirrorBordersTest::pairsHaveAMeet);
+        CHECK.sentence("20: of which one is the lowest LINE through it", MirrorBordersTest::oneIsTheLowestThroughIt);
+        CHECK.sentence("21: Pairs are numbered from 0 by the lower LINE, then by the higher one",
+                MirrorBordersTest::pairsAreNumberedByTheLowerLine);
+        CHECK.sentence("21: NONE if there are not so many", MirrorBordersTest::noneIfNotSoManyPairs);
+        CHECK.sentence("21: Throws IndexOutOfBoundsException if place is below 0", MirrorBordersTest::placeBelowZero);
         CHECK.endsWell();
     }
 
     // ---- promise 18
 
     private static void inItself() {
-        CHECK.sentence("18: in itself");
         for (House house : House.values()) {
             Chamberwright x = house.anew();
             for (int line = 0; line < house.lines(); line++) {
@@ -37,7 +40,6 @@ public final class MirrorBordersTest {
     }
 
     private static void inAnotherOne() {
-        CHECK.sentence("18: in another one, as in a mirror");
         Chamberwright star = House.STAR.anew();
         CHECK.same("x = 1 in the others", Check.row(star.reflected(0, 1), star.reflected(0, 2), star.reflected(0, 3)),
                 "0 1 1");
@@ -56,7 +58,6 @@ public final class MirrorBordersTest {
     }
 
     private static void noneIfItIsNoneOfTheHouse() {
-        CHECK.sentence("18: NONE if it is none of the house");
         CHECK.same("the last of nine in the first", House.BESIDE.anew().reflected(8, 0), NONE);
         CHECK.same("the first of nine in the last", House.BESIDE.anew().reflected(0, 8), NONE);
         CHECK.same("one that cannot be told", House.of(1, 0, 0, 9, 8, 7).reflected(0, 1), NONE);
@@ -69,7 +70,6 @@ public final class MirrorBordersTest {
     }
 
     private static void noSuchLineOfEither() {
-        CHECK.sentence("18: Throws IndexOutOfBoundsException if there is no such LINE, of either");
         for (House house : House.values()) {
             for (int line : new int[] {-1, house.lines(), house.lines() + 1, 9, LEAST, GREATEST}) {
                 CHECK.refused(house, "reflected(" + line + ", 0) of " + house, NO_SUCH, x -> x.reflected(line, 0));
@@ -84,7 +84,6 @@ public final class MirrorBordersTest {
     // ---- promise 19
 
     private static void aKaleidoscopeWithFewerThanTwo() {
-        CHECK.sentence("19: for any two of its LINES, when there are no two");
         CHECK.yes("without LINES", new Chamberwright().isKaleidoscope());
         CHECK.yes("emptied", House.EMPTIED.anew().isKaleidoscope());
         CHECK.yes("one LINE", House.ONE.anew().isKaleidoscope());
@@ -93,7 +92,6 @@ public final class MirrorBordersTest {
     }
 
     private static void forAnyTwoOfItsLines() {
-        CHECK.sentence("19: for any two of its LINES the reflection of the one in the other one is one of its LINES");
         boolean[] due = {true, true, false, true, false, false, true, false, false, false, false, false, false, true};
         for (House house : House.values()) {
             CHECK.same(house.toString(), Boolean.toString(house.anew().isKaleidoscope()),
@@ -123,7 +121,6 @@ public final class MirrorBordersTest {
     }
 
     private static void pairsHaveAMeet() {
-        CHECK.sentence("20: A pair is two LINES with a MEET");
         int[] due = {0, 0, 0, 1, 3, 4, 3, 7, 36, 36, 0, 8, 15, 0};
         for (House house : House.values()) {
             CHECK.same("pairs() of " + house, house.anew().pairs(), due[house.ordinal()]);
@@ -132,7 +129,6 @@ public final class MirrorBordersTest {
     }
 
     private static void oneIsTheLowestThroughIt() {
-        CHECK.sentence("20: of which one is the lowest LINE through it");
         CHECK.same("four through one", pairs(House.STAR.anew()), "3 5 9");
         CHECK.same("nine through one", pairs(House.PENCIL.anew()), "3 5 9 17 33 65 129 257");
         CHECK.same("without the lowest", pairs(House.STAR.without(0)), "3 5");
@@ -142,7 +138,6 @@ public final class MirrorBordersTest {
     }
 
     private static void pairsAreNumberedByTheLowerLine() {
-        CHECK.sentence("21: Pairs are numbered from 0 by the lower LINE, then by the higher one");
         StringBuilder due = new StringBuilder();
         for (int low = 0; low < 9; low++) {
             for (int high = low + 1; high < 9; high++) {
@@ -155,7 +150,6 @@ public final class MirrorBordersTest {
     }
 
     private static void noneIfNotSoManyPairs() {
-        CHECK.sentence("21: NONE if there are not so many");
         for (House house : House.values()) {
             int pairs = house.anew().pairs();
             for (int place : new int[] {pairs, pairs + 1, 36, GREATEST}) {
@@ -169,7 +163,6 @@ public final class MirrorBordersTest {
     }
 
     private static void placeBelowZero() {
-        CHECK.sentence("21: Throws IndexOutOfBoundsException if place is below 0");
         for (House house : House.values()) {
             for (int place : new int[] {-1, -2, LEAST}) {
                 CHECK.refused(house, "pair(" + place + ") of " + house, NO_SUCH, x -> x.pair(place));

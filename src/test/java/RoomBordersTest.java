@@ -16,38 +16,56 @@ public final class RoomBordersTest {
     }
 
     public static void main(String[] args) {
-        withoutLinesThereIsOne();
-        aRoomIsASetWithPoints();
-        roomsAreNumberedByTheirSets();
-        boundedIfInSomeCircle();
-        boundedIsOneOrZero();
-        wallsAreUnlikeInOneLine();
-        noSuchRoom();
-        whatOfARoomIsOutOfRange();
-        noSuchRoomIsNamedFirst();
-        setsFromTheLeastToTheGreatest();
-        noneIfNoRoomHasTheSet();
-        setsOutOfRange();
-        cornersAreBelowNoneAndAboveNoOther();
-        noneIfNotSoManyCorners();
-        noSuchRoomOrPlace();
-        oneGalleryToItself();
-        howManyGalleries();
-        noSuchRoomOfEither();
-        stepZeroIsTheRoomItself();
-        noneIfNotSoManySteps();
-        theLowestLineFirst();
-        noSuchRoomOrStep();
-        projectionsByTheWords();
-        noSuchRoomOrMeet();
-        everyGoalInRange();
-        noneIfNoBound();
-        noneIfNoCornerAlsoWithABound();
-        ofSeveralTheLowest();
-        noSuchRoomForAGoal();
-        goalsOutOfRange();
-        bothGoalsZero();
-        noSuchRoomIsNamedAheadOfTheGoal();
+        CHECK.sentence("9 to 12: Without LINES there is one, 0", RoomBordersTest::withoutLinesThereIsOne);
+        CHECK.sentence("9: A ROOM is a set for which there is a point above each LINE of it, and below all others",
+                RoomBordersTest::aRoomIsASetWithPoints);
+        CHECK.sentence("9: and no other set is one", RoomBordersTest::noOtherSetIsARoom);
+        CHECK.sentence("9: ROOMS are numbered from 0 by their sets as numbers, lower ones first",
+                RoomBordersTest::roomsAreNumberedByTheirSets);
+        CHECK.sentence("10: A ROOM is BOUNDED, if all its points are in some circle",
+                RoomBordersTest::boundedIfInSomeCircle);
+        CHECK.sentence("11: 1 whether it is BOUNDED, 1 or 0", RoomBordersTest::boundedIsOneOrZero);
+        CHECK.sentence("11: A LINE is a wall, if there is a ROOM that is unlike it in that LINE alone",
+                RoomBordersTest::wallsAreUnlikeInOneLine);
+        CHECK.sentence("11: Throws IndexOutOfBoundsException if there is no such ROOM", RoomBordersTest::noSuchRoom);
+        CHECK.sentence("11: Throws IllegalArgumentException if what is out of range",
+                RoomBordersTest::whatOfARoomIsOutOfRange);
+        CHECK.sentence("11: of room's exceptions the one named first", RoomBordersTest::noSuchRoomIsNamedFirst);
+        CHECK.sentence("12: set, 0 to 511", RoomBordersTest::setsFromTheLeastToTheGreatest);
+        CHECK.sentence("12: NONE if there is none", RoomBordersTest::noneIfNoRoomHasTheSet);
+        CHECK.sentence("12: Throws IllegalArgumentException if set is out of range", RoomBordersTest::setsOutOfRange);
+        CHECK.sentence("13: A MEET is a corner, if it is below no LINE of its set, and above no other one",
+                RoomBordersTest::cornersAreBelowNoneAndAboveNoOther);
+        CHECK.sentence("13: NONE if it has not so many corners", RoomBordersTest::noneIfNotSoManyCorners);
+        CHECK.sentence("13: Throws IndexOutOfBoundsException if there is no such ROOM, or place is below 0",
+                RoomBordersTest::noSuchRoomOrPlace);
+        CHECK.sentence("14: 1 to itself", RoomBordersTest::oneGalleryToItself);
+        CHECK.sentence("14: A gallery is a row of ROOMS, each unlike the one ahead in one LINE, as short as can be",
+                RoomBordersTest::howManyGalleries);
+        CHECK.sentence("14: Throws IndexOutOfBoundsException if there is no such ROOM, of either",
+                RoomBordersTest::noSuchRoomOfEither);
+        CHECK.sentence("15: 0 for the ROOM itself", RoomBordersTest::stepZeroIsTheRoomItself);
+        CHECK.sentence("15: NONE if it has not so many", RoomBordersTest::noneIfNotSoManySteps);
+        CHECK.sentence("15: The first gallery crosses the lowest LINE first, then the lowest then, and so on",
+                RoomBordersTest::theLowestLineFirst);
+        CHECK.sentence("15: Throws IndexOutOfBoundsException if there is no such ROOM, of either, or step is below 0",
+                RoomBordersTest::noSuchRoomOrStep);
+        CHECK.sentence("16: those LINES through the MEET above which the ROOM is, and those above which the MEET is",
+                RoomBordersTest::projectionsByTheWords);
+        CHECK.sentence("16: Throws IndexOutOfBoundsException if there is no such ROOM or MEET",
+                RoomBordersTest::noSuchRoomOrMeet);
+        CHECK.sentence("17: gx and gy, -9 to 9", RoomBordersTest::everyGoalInRange);
+        CHECK.sentence("17: NONE if they have no bound at the points of the ROOM", RoomBordersTest::noneIfNoBound);
+        CHECK.sentence("17: NONE if it has no corner, also with a bound",
+                RoomBordersTest::noneIfNoCornerAlsoWithABound);
+        CHECK.sentence("17: of several the lowest MEET", RoomBordersTest::ofSeveralTheLowest);
+        CHECK.sentence("17: Throws IndexOutOfBoundsException if there is no such ROOM",
+                RoomBordersTest::noSuchRoomForAGoal);
+        CHECK.sentence("17: Throws IllegalArgumentException if gx or gy is out of range",
+                RoomBordersTest::goalsOutOfRange);
+        CHECK.sentence("17: Throws IllegalArgumentException if both are 0", RoomBordersTest::bothGoalsZero);
+        CHECK.sentence("17: of best's exceptions the one named first",
+                RoomBordersTest::noSuchRoomIsNamedAheadOfTheGoal);
         CHECK.endsWell();
     }
 
@@ -67,7 +85,6 @@ public final class RoomBordersTest {
     // ---- promises 9 and 10
 
     private static void withoutLinesThereIsOne() {
-        CHECK.sentence("9 to 12: Without LINES there is one, 0");
         for (House house : new House[] {House.NEW, House.EMPTIED}) {
             Chamberwright x = house.anew();
             CHECK.same("rooms() of " + house, x.rooms(), 1);
@@ -88,7 +105,6 @@ public final class RoomBordersTest {
     }
 
     private static void aRoomIsASetWithPoints() {
-        CHECK.sentence("9: A ROOM is a set for which there is a point above each LINE of it, and below all others");
         for (House house : House.values()) {
             CHECK.same("rooms() of " + house, house.anew().rooms(), house.rooms);
             Stock stock = new Stock(house);
@@ -100,6 +116,35 @@ public final class RoomBordersTest {
                 }
             }
         }
+    }
+
+    /** Three of the LINES cross one step from where the fourth one crosses the first. */
+    private static void noOtherSetIsARoom() {
+        for (int way = -1; way <= 1; way += 2) {
+            for (int other = -1; other <= 1; other += 2) {
+                for (int line = 0; line < 4; line++) {
+                    int[] told = {way, 0, 0, 0, 1, 0, 1, -1, -other, 1, 1, other};
+                    told[3 * line] *= -1;
+                    told[3 * line + 1] *= -1;
+                    told[3 * line + 2] *= -1;
+                    String what = " of " + Check.row(told);
+                    CHECK.same("upright: rooms()" + what, House.of(told).rooms(), 10);
+                    int[] level = {0, way, 0, 1, 0, 0, told[7], told[6], told[8], told[10], told[9], told[11]};
+                    CHECK.same("level: rooms()" + what, House.of(level).rooms(), 10);
+                }
+            }
+        }
+        for (House house : House.values()) {
+            CHECK.same("all ROOMS of " + house, Check.row(house.sets()), roomsOf(house.model()));
+        }
+    }
+
+    private static String roomsOf(Model model) {
+        int[] sets = new int[model.rooms()];
+        for (int room = 0; room < sets.length; room++) {
+            sets[room] = model.room(room, 0);
+        }
+        return Check.row(sets);
     }
 
     /** The set of the LINES below that point, NONE if it is on a LINE. */
@@ -116,7 +161,6 @@ public final class RoomBordersTest {
     }
 
     private static void roomsAreNumberedByTheirSets() {
-        CHECK.sentence("9: ROOMS are numbered from 0 by their sets as numbers, lower ones first");
         for (House house : House.values()) {
             int[] sets = house.sets();
             CHECK.yes("the first set of " + house, sets[0] >= 0);
@@ -130,7 +174,6 @@ public final class RoomBordersTest {
     }
 
     private static void boundedIfInSomeCircle() {
-        CHECK.sentence("10: A ROOM is BOUNDED, if all its points are in some circle");
         for (House house : House.values()) {
             CHECK.same("bounded() of " + house, house.anew().bounded(), house.bounded);
         }
@@ -141,7 +184,6 @@ public final class RoomBordersTest {
     }
 
     private static void boundedIsOneOrZero() {
-        CHECK.sentence("11: 1 whether it is BOUNDED, 1 or 0");
         for (House house : House.values()) {
             Chamberwright x = house.anew();
             int ones = 0;
@@ -160,7 +202,6 @@ public final class RoomBordersTest {
     // ---- promise 11
 
     private static void wallsAreUnlikeInOneLine() {
-        CHECK.sentence("11: A LINE is a wall, if there is a ROOM that is unlike it in that LINE alone");
         for (House house : House.values()) {
             Chamberwright x = house.anew();
             Set<Integer> rooms = setsOf(house);
@@ -186,7 +227,6 @@ public final class RoomBordersTest {
     }
 
     private static void noSuchRoom() {
-        CHECK.sentence("11: Throws IndexOutOfBoundsException if there is no such ROOM");
         for (House house : House.values()) {
             for (int room : noRooms(house)) {
                 CHECK.refused(house, "room(" + room + ", 0) of " + house, NO_SUCH, x -> x.room(room, 0));
@@ -198,7 +238,6 @@ public final class RoomBordersTest {
     }
 
     private static void whatOfARoomIsOutOfRange() {
-        CHECK.sentence("11: Throws IllegalArgumentException if what is out of range");
         for (House house : House.values()) {
             for (int what : new int[] {-1, 4, LEAST, GREATEST}) {
                 CHECK.refused(house, "room(0, " + what + ") of " + house, WRONG, x -> x.room(0, what));
@@ -210,7 +249,6 @@ public final class RoomBordersTest {
     }
 
     private static void noSuchRoomIsNamedFirst() {
-        CHECK.sentence("11: of room's exceptions the one named first");
         for (House house : House.values()) {
             CHECK.refused(house, "room(count, 4) of " + house, NO_SUCH, x -> x.room(house.rooms, 4));
             CHECK.refused(house, "room(-1, -1) of " + house, NO_SUCH, x -> x.room(-1, -1));
@@ -220,7 +258,6 @@ public final class RoomBordersTest {
     // ---- promise 12
 
     private static void setsFromTheLeastToTheGreatest() {
-        CHECK.sentence("12: set, 0 to 511");
         CHECK.same("roomOf(0), the first of ten", House.BESIDE.anew().roomOf(0), 0);
         CHECK.same("roomOf(511), the last of ten", House.BESIDE.anew().roomOf(511), 9);
         for (House house : House.values()) {
@@ -236,7 +273,6 @@ public final class RoomBordersTest {
     }
 
     private static void noneIfNoRoomHasTheSet() {
-        CHECK.sentence("12: NONE if there is none");
         CHECK.same("a set of LINES, all of them there", House.TRIANGLE.anew().roomOf(4), NONE);
         CHECK.same("a set with a LINE that is not there", House.TRIANGLE.anew().roomOf(8 + 3), NONE);
         CHECK.same("0 of a strip told the other way round", House.STRIP.anew().roomOf(0), NONE);
@@ -249,7 +285,6 @@ public final class RoomBordersTest {
     }
 
     private static void setsOutOfRange() {
-        CHECK.sentence("12: Throws IllegalArgumentException if set is out of range");
         for (House house : House.values()) {
             for (int set : new int[] {-1, 512, 513, 1024, LEAST, GREATEST}) {
                 CHECK.refused(house, "roomOf(" + set + ") of " + house, WRONG, x -> x.roomOf(set));
@@ -260,7 +295,6 @@ public final class RoomBordersTest {
     // ---- promise 13
 
     private static void cornersAreBelowNoneAndAboveNoOther() {
-        CHECK.sentence("13: A MEET is a corner, if it is below no LINE of its set, and above no other one");
         for (House house : House.values()) {
             Stock stock = new Stock(house);
             int[] sets = house.sets();
@@ -292,7 +326,6 @@ public final class RoomBordersTest {
     }
 
     private static void noneIfNotSoManyCorners() {
-        CHECK.sentence("13: NONE if it has not so many corners");
         for (House house : House.values()) {
             Stock stock = new Stock(house);
             for (int room = 0; room < house.rooms; room++) {
@@ -311,7 +344,6 @@ public final class RoomBordersTest {
     }
 
     private static void noSuchRoomOrPlace() {
-        CHECK.sentence("13: Throws IndexOutOfBoundsException if there is no such ROOM, or place is below 0");
         for (House house : House.values()) {
             for (int room : noRooms(house)) {
                 CHECK.refused(house, "corner(" + room + ", 0) of " + house, NO_SUCH, x -> x.corner(room, 0));
@@ -326,7 +358,6 @@ public final class RoomBordersTest {
     // ---- promises 14 and 15
 
     private static void oneGalleryToItself() {
-        CHECK.sentence("14: 1 to itself");
         for (House house : House.values()) {
             Chamberwright x = house.anew();
             for (int room = 0; room < house.rooms; room++) {
@@ -340,7 +371,6 @@ public final class RoomBordersTest {
     }
 
     private static void howManyGalleries() {
-        CHECK.sentence("14: A gallery is a row of ROOMS, each unlike the one ahead in one LINE, as short as can be");
         for (House house : House.values()) {
             Stock stock = new Stock(house);
             int[] sets = house.sets();
@@ -372,7 +402,6 @@ public final class RoomBordersTest {
     }
 
     private static void noSuchRoomOfEither() {
-        CHECK.sentence("14: Throws IndexOutOfBoundsException if there is no such ROOM, of either");
         for (House house : House.values()) {
             for (int room : noRooms(house)) {
                 CHECK.refused(house, "galleries(" + room + ", 0) of " + house, NO_SUCH, x -> x.galleries(room, 0));
@@ -384,7 +413,6 @@ public final class RoomBordersTest {
     }
 
     private static void stepZeroIsTheRoomItself() {
-        CHECK.sentence("15: 0 for the ROOM itself");
         for (House house : House.values()) {
             Stock stock = new Stock(house);
             for (int room = 0; room < house.rooms; room++) {
@@ -397,7 +425,6 @@ public final class RoomBordersTest {
     }
 
     private static void noneIfNotSoManySteps() {
-        CHECK.sentence("15: NONE if it has not so many");
         for (House house : House.values()) {
             Stock stock = new Stock(house);
             int[] sets = house.sets();
@@ -417,7 +444,6 @@ public final class RoomBordersTest {
     }
 
     private static void theLowestLineFirst() {
-        CHECK.sentence("15: The first gallery crosses the lowest LINE first, then the lowest then, and so on");
         for (House house : House.values()) {
             Stock stock = new Stock(house);
             int[] sets = house.sets();
@@ -453,12 +479,13 @@ public final class RoomBordersTest {
     }
 
     private static void noSuchRoomOrStep() {
-        CHECK.sentence("15: Throws IndexOutOfBoundsException if there is no such ROOM, of either, or step is below 0");
         for (House house : House.values()) {
             for (int room : noRooms(house)) {
                 CHECK.refused(house, "gallery(" + room + ", 0, 0) of " + house, NO_SUCH, x -> x.gallery(room, 0, 0));
                 CHECK.refused(house, "gallery(0, " + room + ", 0) of " + house, NO_SUCH, x -> x.gallery(0, room, 0));
-                CHECK.refused(house, "gallery(" + room + " to itself) of " + house, NO_SUCH,
+                CHECK.refused(house, "gallery(" + room + " to itself, 0) of " + house, NO_SUCH,
+                        x -> x.gallery(room, room, 0));
+                CHECK.refused(house, "gallery(" + room + " to itself, -1) of " + house, NO_SUCH,
                         x -> x.gallery(room, room, -1));
             }
             for (int step : new int[] {-1, -2, LEAST}) {
@@ -472,7 +499,6 @@ public final class RoomBordersTest {
     // ---- promise 16
 
     private static void projectionsByTheWords() {
-        CHECK.sentence("16: those LINES through the MEET above which the ROOM is, and those above which the MEET is");
         for (House house : House.values()) {
             Stock stock = new Stock(house);
             int[] sets = house.sets();
@@ -496,7 +522,6 @@ public final class RoomBordersTest {
     }
 
     private static void noSuchRoomOrMeet() {
-        CHECK.sentence("16: Throws IndexOutOfBoundsException if there is no such ROOM or MEET");
         for (House house : House.values()) {
             for (int room : noRooms(house)) {
                 CHECK.refused(house, "project(" + room + ", 0) of " + house, NO_SUCH, x -> x.project(room, 0));
@@ -513,7 +538,6 @@ public final class RoomBordersTest {
 
     /** The middle of the window has the MEETS 0 to 3 as corners: below and above at the left, then at the right. */
     private static void everyGoalInRange() {
-        CHECK.sentence("17: gx and gy, -9 to 9");
         Stock stock = new Stock(House.WINDOW);
         for (int gx = -9; gx <= 9; gx++) {
             for (int gy = -9; gy <= 9; gy++) {
@@ -526,7 +550,6 @@ public final class RoomBordersTest {
     }
 
     private static void noneIfNoBound() {
-        CHECK.sentence("17: NONE if they have no bound at the points of the ROOM");
         Chamberwright x = House.TRIANGLE.anew();
         CHECK.same("away from the corner", Check.row(x.best(0, -1, 0), x.best(0, 0, -1), x.best(0, -1, -1)),
                 "-1 -1 -1");
@@ -549,7 +572,6 @@ public final class RoomBordersTest {
     }
 
     private static void noneIfNoCornerAlsoWithABound() {
-        CHECK.sentence("17: NONE if it has no corner, also with a bound");
         Chamberwright strip = House.STRIP.anew();
         for (int room = 0; room < 3; room++) {
             for (int g = -1; g <= 1; g += 2) {
@@ -570,20 +592,19 @@ public final class RoomBordersTest {
     }
 
     private static void ofSeveralTheLowest() {
-        CHECK.sentence("17: of several the lowest MEET");
         Chamberwright x = House.TRIANGLE.anew();
         CHECK.same("along x + y = 2", Check.row(x.best(3, 1, 1), x.best(3, 9, 9)), "1 1");
         CHECK.same("along x = 0", Check.row(x.best(3, -1, 0), x.best(3, -9, 0)), "0 0");
         CHECK.same("along y = 0", x.best(3, 0, -1), 0);
         CHECK.same("along the wall of a ROOM that goes on", x.best(6, -1, -1), 1);
-        CHECK.same("of all MEETS alike with other D", House.of(1, 0, 0, 0, 1, 0, 2, 3, 1).best(3, 2, 3), 1);
+        CHECK.same("with a D of 3 and one of 2", House.of(1, 0, 0, 0, 1, 0, 2, 3, 1).best(3, 2, 3), 1);
+        CHECK.same("with a D of 2 and one of 3", House.of(1, 0, 0, 0, 1, 0, 3, 2, 1).best(3, 3, 2), 1);
         Chamberwright w = House.WINDOW.anew();
         CHECK.same("of a window", Check.row(w.best(4, 1, 0), w.best(4, -1, 0), w.best(4, 0, 1), w.best(4, 0, -1)),
                 "2 0 1 0");
     }
 
     private static void noSuchRoomForAGoal() {
-        CHECK.sentence("17: Throws IndexOutOfBoundsException if there is no such ROOM");
         for (House house : House.values()) {
             for (int room : noRooms(house)) {
                 CHECK.refused(house, "best(" + room + ", 1, 0) of " + house, NO_SUCH, x -> x.best(room, 1, 0));
@@ -592,7 +613,6 @@ public final class RoomBordersTest {
     }
 
     private static void goalsOutOfRange() {
-        CHECK.sentence("17: Throws IllegalArgumentException if gx or gy is out of range");
         for (House house : House.values()) {
             for (int far : new int[] {-10, 10, LEAST, GREATEST}) {
                 CHECK.refused(house, "best(0, " + far + ", 9) of " + house, WRONG, x -> x.best(0, far, 9));
@@ -604,7 +624,6 @@ public final class RoomBordersTest {
     }
 
     private static void bothGoalsZero() {
-        CHECK.sentence("17: Throws IllegalArgumentException if both are 0");
         for (House house : House.values()) {
             for (int room = 0; room < house.rooms; room += 5) {
                 int one = room;
@@ -614,7 +633,6 @@ public final class RoomBordersTest {
     }
 
     private static void noSuchRoomIsNamedAheadOfTheGoal() {
-        CHECK.sentence("17: of best's exceptions the one named first");
         for (House house : House.values()) {
             CHECK.refused(house, "best(count, 0, 0) of " + house, NO_SUCH, x -> x.best(house.rooms, 0, 0));
             CHECK.refused(house, "best(-1, 10, 0) of " + house, NO_SUCH, x -> x.best(-1, 10, 0));
