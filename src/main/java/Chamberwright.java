@@ -718,13 +718,13 @@ public final class Chamberwright {
             int a = lines.a(line);
             int b = lines.b(line);
             int c = lines.c(line);
-            markBeside(lines, line, a * c, b * c, a * a + b * b);
+            markBeside(line, lines.setBelow(a * c, b * c, a * a + b * b));
         }
 
         private void markBetween(Lines lines, Meets meets, int line, int one, int other) {
             int x = meets.x(one) * meets.d(other) + meets.x(other) * meets.d(one);
             int y = meets.y(one) * meets.d(other) + meets.y(other) * meets.d(one);
-            markBeside(lines, line, x, y, 2 * meets.d(one) * meets.d(other));
+            markBeside(line, lines.setBelow(x, y, 2 * meets.d(one) * meets.d(other)));
         }
 
         /** Ahead of the first MEET of a LINE (way -1) or behind its last one (way 1). */
@@ -733,12 +733,13 @@ public final class Chamberwright {
             int dy = -lines.a(line);
             boolean risesInOrder = dx != 0 ? dx > 0 : dy > 0;
             int step = (risesInOrder ? way : -way) * meets.d(meet);
-            markBeside(lines, line, meets.x(meet) + step * dx, meets.y(meet) + step * dy, meets.d(meet));
+            int x = meets.x(meet) + step * dx;
+            int y = meets.y(meet) + step * dy;
+            markBeside(line, lines.setBelow(x, y, meets.d(meet)));
         }
 
-        /** The point is on that LINE and on no other one; any mark will do until all are there. */
-        private void markBeside(Lines lines, int line, int x, int y, int d) {
-            int set = lines.setBelow(x, y, d);
+        /** The set is that of a point on that LINE and on no other one; any mark will do until all are there. */
+        private void markBeside(int line, int set) {
             numbers[set] = 0;
             numbers[set | bit(line)] = 0;
         }
